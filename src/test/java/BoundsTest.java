@@ -84,12 +84,12 @@ public final class BoundsTest {
     private static void followerWithoutRoom() {
         TermLog x = fullLeader();
         Due.law(x, "e4(f=0);e40(f=f)");
-        while (x.count(3) < 48) x.ticks(1);
+        Due.tickTill(x, y -> y.count(3) >= 48);
         Due.due("LAST of 1", x.nodeIs(1, 4), 48);
         Due.due("COMMIT of 1", x.nodeIs(1, 5), 0);
         Due.due("COMPACT", x.compact(0), true);
         Due.due("a write", x.write(0, 5, 50), 49);
-        while (x.nodeIs(1, 5) == 0) x.ticks(1);
+        Due.tickTill(x, y -> y.nodeIs(1, 5) != 0);
         Due.due("1 has no room", x.nodeIs(1, 4), 48);
         Due.due("1 knows all it has HELD", x.nodeIs(1, 5), 48);
         Due.due("BASE of 1", x.nodeIs(1, 6), 0);
@@ -125,12 +125,10 @@ public final class BoundsTest {
     private static void index999() {
         TermLog x = Due.settled(1);
         for (int i = 0; i < 6; i++) Due.plan(x, "5(9(3w001)c0.)");
-        int left = 999 - x.nodeIs(0, 4);
-        while (left > 0) {
+        for (int i = 0; i < 120 && x.nodeIs(0, 4) < 999; i++) {
             x.compact(0);
-            int some = Math.min(9, left);
+            int some = Math.min(9, 999 - x.nodeIs(0, 4));
             Due.plan(x, some == 1 ? "w002" : some + "w002");
-            left -= some;
         }
         Due.due("LAST", x.nodeIs(0, 4), 999);
         Due.due("HELD", x.count(3), 999);
@@ -157,7 +155,7 @@ public final class BoundsTest {
 
     private static void messages160() {
         TermLog x = Due.settled(127);
-        while (x.count(2) > 0) x.ticks(1);
+        Due.tickTill(x, y -> y.count(2) == 0);
         Due.law(x, "e40(f=f);d9(f=f)");
         Due.plan(x, "9(3w001)");
         Due.due("27 writes to six", x.count(2), 160);

@@ -1,3 +1,5 @@
+import java.util.function.Predicate;
+
 /** What the tests share: what is due is held against what is answered, texts go by the tape. */
 final class Due {
     private static int wrong = 0;
@@ -62,12 +64,18 @@ final class Due {
         return (int) y;
     }
 
+    /** TICKS till something is so; wrong if it is not so in the longest time that could need. */
+    static void tickTill(TermLog x, Predicate<TermLog> isSo) {
+        for (int i = 0; i < 120 && !isSo.test(x); i++) x.ticks(1);
+        due("what is waited for", isSo.test(x), true);
+    }
+
     /** NODE 0 of those stands first, as none other does for 40 TICKS. */
     static TermLog ledByZero(int some) {
         TermLog x = new TermLog();
         law(x, "e4(f=0);e40(f=f)");
         x.found(some);
-        while (x.leaderNow() != 0) x.ticks(1);
+        tickTill(x, y -> y.leaderNow() == 0);
         return x;
     }
 

@@ -181,7 +181,7 @@ public final class LawTest {
     /** A write to seven: when the first MESSAGE is due from now on (none: 0), how many are lost. */
     private static void sentUnder(String law, int rules, int dueIn, int lost) {
         TermLog x = Due.settled(127);
-        while (x.count(2) > 0) x.ticks(1);
+        Due.tickTill(x, y -> y.count(2) == 0);
         int answer = Due.law(x, law);
         Due.due(law, answer, 1 + (int) law.chars().filter(c -> c == ';').count());
         int before = x.count(8);

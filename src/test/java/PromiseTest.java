@@ -163,7 +163,7 @@ public final class PromiseTest {
         Due.due("cut", x.cut(0, 1, true), true);
         Due.due("again", x.cut(1, 0, true), true);
         Due.due("one link", x.count(9), 1);
-        while (x.count(2) > 0) x.ticks(1);
+        Due.tickTill(x, y -> y.count(2) == 0);
         int before = x.count(8);
         x.write(0, 1, 1);
         Due.due("sent all the same", x.count(2), 2);
@@ -266,11 +266,11 @@ public final class PromiseTest {
         x.ticks(x.till(200, 0));
         Due.due("TERM", x.nodeIs(0, 1), 2);
         Due.due("own ENTRY", x.entryAt(0, 8, 0), 2);
-        while (x.about(0, 1, 1) == 0) x.ticks(1);
+        Due.tickTill(x, y -> y.about(0, 1, 1) != 0);
         Due.due("a MAJORITY has 5", x.about(0, 1, 1), 5);
         Due.due("of the older TERM", x.entryAt(0, 5, 0), 1);
         Due.due("not HELD", x.nodeIs(0, 5), 0);
-        while (x.about(0, 1, 1) == 5) x.ticks(1);
+        Due.tickTill(x, y -> y.about(0, 1, 1) != 5);
         Due.due("a MAJORITY has 8", x.about(0, 1, 1), 8);
         Due.due("all HELD by way of its own", x.nodeIs(0, 5), 8);
         Due.due("HELD at 7", x.heldAt(7, 0), 1);
@@ -316,7 +316,7 @@ public final class PromiseTest {
         }
         Due.due("while joint", x.change(0, 3), -4);
         Due.due("sent to a new one", x.message(x.count(2) - 1, 1), 3);
-        while (x.nodeIs(0, 9) != 0) x.ticks(1);
+        Due.tickTill(x, y -> y.nodeIs(0, 9) == 0);
         Due.due("the last of it", x.entryAt(0, 3, 2), 15);
         Due.due("none new", x.entryAt(0, 3, 3), 0);
         Due.due("not HELD yet", x.change(0, 3), -4);
@@ -368,7 +368,7 @@ public final class PromiseTest {
         x.write(0, 1, 1);
         x.change(0, 6);
         x.ask(0, 1);
-        while (x.nodeIs(0, 3) == 2) x.ticks(1);
+        Due.tickTill(x, y -> y.nodeIs(0, 3) != 2);
         Due.due("FOLLOWER", x.nodeIs(0, 3), 0);
         Due.due("LEADER KNOWN", x.nodeIs(0, 10), -2);
         Due.due("it HELD its going", x.nodeIs(0, 5), 4);
@@ -383,22 +383,34 @@ public final class PromiseTest {
         Due.due("no MEMBER could win", x.couldWin(0, 0), -2);
     }
 
-    /** A LEADER of a joint CONFIG that its SNAPSHOT HELD lays the new one as soon as it LEADS. */
+    /** A LEADER whose SNAPSHOT has a joint CONFIG lays the new one as soon as it LEADS. */
     private static void jointTakenOver() {
         TermLog x = Due.settled(7);
-        x.ticks(3);
+        x.cut(0, 3, true);
         x.change(0, 15);
-        Due.law(x, "e4(f=0);e40(f=f);x(k=2&s=s&t>0&q>99)");
-        while (x.nodeIs(0, 5) < 2) x.ticks(1);
-        x.compact(0);
-        Due.due("BASE", x.nodeIs(0, 6), 2);
+        x.ticks(1);
+        Due.law(x, "e40(f=f);x(k=2)");
+        x.ticks(1);
+        Due.due("the joint one is HELD", x.nodeIs(0, 5), 2);
+        Due.due("COMPACT", x.compact(0), true);
+        x.cut(0, 3, false);
+        Due.tickTill(x, y -> y.nodeIs(3, 6) == 2);
+        Due.due("joint by the SNAPSHOT", x.nodeIs(3, 9), 15);
+        Due.due("the last one did not come", x.nodeIs(1, 4), 2);
         x.crash(0);
-        x.comeUp(0);
+        Due.law(x, "e4(f=3);e40(f=f)");
+        x.crash(3);
+        x.comeUp(3);
         x.ticks(x.till(200, 0));
-        Due.due("it LEADS", x.leaderNow(), 0);
-        Due.due("CONFIG", x.nodeIs(0, 8), 15);
-        x.ticks(10);
-        Due.due("broken", x.broken(0), 0);
+        Due.due("3 LEADS", x.leaderNow(), 3);
+        Due.due("nothing, at first", x.entryAt(3, 3, 1), 2);
+        Due.due("then a CONFIG", x.entryAt(3, 4, 1), 1);
+        Due.due("of the new ones", x.entryAt(3, 4, 2), 15);
+        Due.due("not joint", x.nodeIs(3, 9), 0);
+        Due.due("sent to all, twice", x.count(2), 6);
+        x.ticks(9);
+        Due.due("HELD", x.nodeIs(3, 5), 4);
+        Due.due("broken", x.broken(0) + x.broken(1) + x.broken(2), 0);
     }
 
     private static void promise9Ask() {
@@ -513,7 +525,7 @@ public final class PromiseTest {
         TermLog x = new TermLog();
         Due.law(x, "e4(f=1);e40(f=f)");
         x.found(14);
-        while (x.nodeIs(1, 3) != 1) x.ticks(1);
+        Due.tickTill(x, y -> y.nodeIs(1, 3) == 1);
         Due.due("TERM", x.nodeIs(1, 1), 1);
         Due.due("VOTE", x.nodeIs(1, 2), 1);
         Due.due("VOTES", x.nodeIs(1, 11), 2);
@@ -734,7 +746,7 @@ public final class PromiseTest {
         x.compact(0);
         Due.due("NEXT of 1", x.about(0, 1, 0), 2);
         x.comeUp(1);
-        while (x.message(0, 1) != 1 || x.message(0, 2) != 4) x.ticks(1);
+        Due.tickTill(x, y -> y.message(0, 1) == 1 && y.message(0, 2) == 4);
         Due.due("KIND 4 has no ENTRIES", x.message(0, 5), 0);
         int held = x.count(3);
         x.ticks(1);
@@ -894,14 +906,14 @@ public final class PromiseTest {
         Due.law(x, "e4(f=2);e40(f=f)");
         x.crash(2);
         x.comeUp(2);
-        while (x.nodeIs(2, 1) < 2) x.ticks(1);
+        Due.tickTill(x, y -> y.nodeIs(2, 1) >= 2);
         x.cut(2, 0, false);
         x.cut(2, 1, false);
         Due.due("2 has VOTE in TERM 2", x.couldWin(1, 1), 3);
         Due.due("2 in TERM 3", x.couldWin(2, 1), 7);
         x.cut(2, 0, true);
         x.cut(2, 1, true);
-        while (x.nodeIs(2, 1) < 3) x.ticks(1);
+        Due.tickTill(x, y -> y.nodeIs(2, 1) >= 3);
         x.cut(2, 0, false);
         x.cut(2, 1, false);
         Due.due("2 is above TERM 2", x.couldWin(0, 1), 3);
@@ -1046,7 +1058,7 @@ public final class PromiseTest {
     private static void promise30Check() {
         TermLog x = Due.settled(7);
         for (int key = 0; key < 8; key++) x.write(0, key, 10 + key);
-        while (x.nodeIs(0, 5) < 9) x.ticks(1);
+        Due.tickTill(x, y -> y.nodeIs(0, 5) >= 9);
         check(x, 8, -1, 10, 11, 12, 13, 14, 15, 16, 17);
         check(x, 8, 7, 10, 11, 12, 13, 14, 15, 16, 18);
         check(x, 8, 2, 10, 11, 0, 13, 0, 15, 16, 17);
