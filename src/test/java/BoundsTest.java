@@ -13,6 +13,7 @@ public final class BoundsTest {
         term999();
         tick9999();
         tape260();
+        lost99999();
         Due.end("BoundsTest");
     }
 
@@ -140,7 +141,10 @@ public final class BoundsTest {
         x.compact(0);
         Due.due("a write to no ENTRIES", x.write(0, 0, 0), -3);
         Due.due("a READ", x.readIs(x.ask(0, 0), 1), 2);
+        x.keep();
+        x.found(1);
         x.undo();
+        Due.due("KEPT at 999", x.heldAt(999, 3), 2);
         // elected anew: nothing can be laid, the SNAPSHOT is of an older TERM
         x.crash(0);
         x.comeUp(0);
@@ -253,5 +257,40 @@ public final class BoundsTest {
         Due.due("the first ones are asked", x.check(8), -1);
         Due.due("empty", x.count(5), 0);
         Due.due("again", x.feed(1, 2, 3, 4, 5), 20);
+    }
+
+    /** Five LEADERS, each for itself, of which each loses six MESSAGES every third TICK. */
+    private static void lost99999() {
+        TermLog x = Due.ledByZero(127);
+        for (int n = 1; n <= 3; n++) leadWithout(x, n);
+        x.change(3, 120);
+        x.ticks(12);
+        Due.due("3 with 4, 5, 6", x.nodeIs(3, 8) + x.nodeIs(3, 9), 120);
+        Due.law(x, "e40(f=f);x(f=f)");
+        Due.due("3 and all, but none hears", x.change(3, 127) > 0, true);
+        leadWithout(x, 4);
+        x.ticks(6);
+        Due.law(x, "e4(f=f);x(f=f)");
+        Due.due("4 and all, but none hears", x.change(4, 127) > 0, true);
+        for (int n = 0; n < 5; n++) Due.due("a LEADER", x.nodeIs(n, 3), 2);
+        for (int i = 0; i < 46; i++) x.ticks(200);
+        Due.due("not yet 99999", x.count(8) > 90000 && x.count(8) < 99999, true);
+        x.ticks(200);
+        x.ticks(200);
+        x.ticks(200);
+        Due.due("99999 at most", x.count(8), 99999);
+        Due.due("as a PLAN goes on", Due.plan(x, "6."), 6);
+        Due.due("99999 yet", x.count(8), 99999);
+        x.found(1);
+        Due.due("none since FOUNDED", x.count(8), 0);
+    }
+
+    /** A NODE LEADS, while those below it neither hear nor are heard. */
+    private static void leadWithout(TermLog x, int n) {
+        Due.law(x, "e4(f=" + n + ");e40(f=f);x(f<" + n + "|t<" + n + ")");
+        x.crash(n);
+        x.comeUp(n);
+        x.ticks(20);
+        Due.due("LEADER NOW", x.leaderNow(), n);
     }
 }

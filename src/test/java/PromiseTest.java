@@ -708,6 +708,7 @@ public final class PromiseTest {
         Due.due("DOWN", x.about(0, 1, 0), -2);
         hints();
         snapshots();
+        snapshotsAmongEntries();
     }
 
     /** Where LOGS part: what is told back is what NEXT becomes, MATCH + 1 at least. */
@@ -760,6 +761,51 @@ public final class PromiseTest {
         x.ticks(1);
         Due.due("MATCH of 1", x.about(0, 1, 1), 2);
         Due.due("NEXT of 1 then", x.about(0, 1, 0), 3);
+    }
+
+    /** Of a SNAPSHOT that comes, what a NODE has behind its INDEX stays if it has that one. */
+    private static void snapshotsAmongEntries() {
+        TermLog x = Due.settled(7);
+        Due.tickTill(x, y -> y.count(2) == 0);
+        Due.law(x, "e40(f=f);x(f=1&k=3)");
+        x.write(0, 0, 2);
+        x.write(0, 0, 3);
+        Due.law(x, "e40(f=f);x(f=1&k=3);x(t=2)");
+        x.write(0, 0, 4);
+        x.write(0, 0, 5);
+        x.ticks(2);
+        Due.due("1 has four more", x.nodeIs(1, 4), 5);
+        Due.due("1 knows of none HELD", x.nodeIs(1, 5), 1);
+        Due.due("0 knows of two", x.nodeIs(0, 5), 3);
+        Due.due("0 knows not of 1", x.about(0, 1, 0), 2);
+        x.compact(0);
+        Due.tickTill(x, y -> y.nodeIs(1, 6) == 3);
+        Due.due("what is behind it stays", x.nodeIs(1, 4), 5);
+        Due.due("an ENTRY behind it", x.entryAt(1, 4, 3), 4);
+        Due.due("the ENTRY at it goes", x.entryAt(1, 3, 0), -2);
+        Due.due("COMMIT", x.nodeIs(1, 5), 3);
+        Due.due("KEY", x.keyOf(1, 0), 3);
+        // one with another TERM there: all go
+        x = Due.settled(7);
+        Due.tickTill(x, y -> y.count(2) == 0);
+        x.cut(0, 1, true);
+        x.cut(0, 2, true);
+        for (int i = 2; i < 8; i++) x.write(0, 0, i);
+        Due.law(x, "e4(f=1);e40(f=f)");
+        x.crash(1);
+        x.comeUp(1);
+        Due.tickTill(x, y -> y.leaderNow() == 1);
+        x.write(1, 1, 11);
+        Due.tickTill(x, y -> y.nodeIs(1, 5) == 3);
+        x.compact(1);
+        Due.due("LAST of 0", x.nodeIs(0, 4), 7);
+        x.ticks(1);
+        x.cut(0, 1, false);
+        Due.tickTill(x, y -> y.nodeIs(0, 6) == 3);
+        Due.due("all go", x.nodeIs(0, 4), 3);
+        Due.due("TERM of LAST", x.nodeIs(0, 13), 2);
+        Due.due("KEY 0", x.keyOf(0, 0), 0);
+        Due.due("KEY 1", x.keyOf(0, 1), 11);
     }
 
     private static void promise19Message() {
@@ -1048,11 +1094,39 @@ public final class PromiseTest {
         x.ticks(5);
         Due.due("undo again", x.undo(), true);
         Due.due("THE TICK again", x.count(0), kept);
+        keptReads();
         x.ticks(5);
         Due.due("keep again", x.keep(), kept + 5);
         x.ticks(5);
         x.undo();
         Due.due("as it was KEPT last", x.count(0), kept + 5);
+    }
+
+    private static void keptReads() {
+        TermLog x = Due.settled(7);
+        x.write(0, 5, 50);
+        x.write(0, 6, 60);
+        x.ticks(3);
+        x.ask(0, 5);
+        x.ticks(2);
+        x.ask(0, 6);
+        x.keep();
+        x.found(1);
+        Due.tickTill(x, y -> y.leaderNow() == 0);
+        x.ask(0, 1);
+        x.ask(0, 2);
+        Due.due("another READ", x.readIs(0, 3), 1);
+        x.undo();
+        int[][] all = {{1, 50, 0, 5}, {0, -2, 0, 6}};
+        for (int i = 0; i < 2; i++) {
+            for (int what = 0; what < 4; what++) {
+                Due.due("a KEPT READ", x.readIs(i, what), all[i][what]);
+            }
+        }
+        x.ticks(1);
+        Due.due("open by its ROUND", x.readIs(1, 0), 0);
+        x.ticks(1);
+        Due.due("answered by its KEY", x.readIs(1, 1), 60);
     }
 
     private static void promise30Check() {
