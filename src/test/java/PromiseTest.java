@@ -1,5 +1,10 @@
-/** Each promise by itself, in ordinary use and with what is not to be had. */
+/** 'Promise 1' to 'Promise 31', sentence by sentence; what 'Terms' says is held elsewhere. */
 public final class PromiseTest {
+    private static final int MAX = Integer.MAX_VALUE;
+    private static final int MIN = Integer.MIN_VALUE;
+    private static final int[] NO_NODES = {-1, 7, 8, 127, MAX, MIN};
+    private static final int[] NO_COUNTS = {0, -1, 201, 202, MAX, MIN};
+
     private PromiseTest() {}
 
     public static void main(String[] args) {
@@ -37,66 +42,39 @@ public final class PromiseTest {
     }
 
     private static void promise1NewObject() {
+        Due.says(1, "`TermLog()`: FOUNDED by 0, 1, 2; no LAW; THE SEED 1.");
         TermLog x = new TermLog();
         int[] counts = {0, 127, 0, 0, 0, 0, Due.xBehind(1, 7), 0, 0, 0};
-        for (int what = 0; what < 10; what++) Due.due("new count", x.count(what), counts[what]);
+        for (int what = 0; what < 10; what++) Due.due("count", x.count(what), counts[what]);
         for (int n = 0; n < 7; n++) {
             int[] facts = {1, 0, -2, 0, 0, 0, 0, 8 + Due.xBehind(1, n + 1) % 10, 7, 0, -2, 0, 0, 0};
             for (int what = 0; what < 14; what++) {
-                Due.due("new nodeIs " + n + " " + what, x.nodeIs(n, what), facts[what]);
+                Due.due("nodeIs " + n + " " + what, x.nodeIs(n, what), facts[what]);
             }
             for (int key = 0; key < 8; key++) {
-                Due.due("new keyOf", x.keyOf(n, key) + x.keyOf(n, 10 + key), 0);
+                Due.due("keyOf", x.keyOf(n, key) + x.keyOf(n, 10 + key), 0);
             }
         }
-        Due.due("new undo", x.undo(), false);
+        Due.due("none was KEPT", x.undo(), false);
     }
 
     private static void promise2Found() {
-        TermLog x = Due.settled(31);
-        x.keep();
-        x.write(0, 1, 9);
-        x.ask(0, 1);
-        x.ticks(4);
-        x.crash(2);
-        x.cut(0, 1, true);
-        x.write(0, 2, 8);
-        int before = x.count(6);
-        Due.law(x, "e10+f(f=f)");
-        x.feed(1, 2, 3, 4, 5);
-        Due.due("found", x.found(42), true);
-        int[] counts = {0, 127, 0, 0, 1, 20, Due.xBehind(before, 7), 0, 0, 0};
-        for (int what = 0; what < 10; what++) {
-            Due.due("found: count " + what, x.count(what), counts[what]);
+        Due.says(2, "`boolean found(int some)`: FOUNDED anew (bits 1 to 127): true; false: no such ones.");
+        for (int some = -2; some <= 130; some++) {
+            TermLog x = Due.settled(7);
+            boolean is = some >= 1 && some <= 127;
+            Due.due("found(" + some + ")", x.found(some), is);
+            Due.due("THE TICK", x.count(0) == 0, is);
+            Due.due("old ones", x.nodeIs(6, 8), is ? some : 7);
         }
-        for (int n = 0; n < 7; n++) {
-            int timer = 10 + n + Due.xBehind(before, n + 1) % 10;
-            int[] facts = {1, 0, -2, 0, 0, 0, 0, timer, 42, 0, -2, 0, 0, 0};
-            for (int what = 0; what < 14; what++) {
-                Due.due("found: nodeIs " + n + " " + what, x.nodeIs(n, what), facts[what]);
-            }
-            Due.due("found: KEYS", x.keyOf(n, 1) + x.keyOf(n, 2) + x.keyOf(n, 11), 0);
+        for (int some : new int[] {255, 256 + 7, MAX, MIN, MIN + 7}) {
+            Due.due("found(" + some + ")", new TermLog().found(some), false);
         }
-        Due.due("found: HELD", x.heldAt(1, 0), -2);
-        Due.due("found: BROKEN", x.broken(0), 0);
-        Due.due("what was KEPT stays", x.undo(), true);
-        Due.due("as it was KEPT", x.nodeIs(0, 8), 31);
-        Due.due("found(0)", x.found(0), false);
-        Due.due("found(128)", x.found(128), false);
-        Due.due("found(-1)", x.found(-1), false);
-        Due.due("found(1)", x.found(1), true);
-        Due.due("found(127)", x.found(127), true);
-        Due.due("found(127): CONFIG", x.nodeIs(6, 8), 127);
-        // a TERM led before is as if it had no LEADER
-        x = Due.settled(1);
-        Due.law(x, "e4(f=1);e40(f=f)");
-        x.found(2);
-        x.ticks(20);
-        Due.due("another LEADER of TERM 1", x.leaderNow(), 1);
-        Due.due("nothing BROKEN", x.broken(0), 0);
     }
 
     private static void promise3Crash() {
+        Due.says(3, "`boolean crash(int node)`: A NODE that is UP crashes: DOWN, what is not kept goes (its"
+                + " READS are lost): true;");
         TermLog x = Due.settled(7);
         x.write(0, 1, 5);
         x.ticks(5);
@@ -112,29 +90,24 @@ public final class PromiseTest {
         Due.due("its ENTRY stays", x.entryAt(0, 2, 3), 5);
         Due.due("its KEYS", x.keyOf(0, 1), -2);
         Due.due("no LEADER NOW", x.leaderNow(), -2);
-        Due.due("again", x.crash(0), false);
-        Due.due("-1", x.crash(-1), false);
-        Due.due("7", x.crash(7), false);
-        // what comes to one DOWN is lost
-        int before = x.count(8);
-        int way = 0;
-        for (int i = 0; i < x.count(2); i++) {
-            if (x.message(i, 1) == 0) way++;
-        }
-        x.ticks(3);
-        Due.due("lost", x.count(8) >= before + way, true);
-        // of READS, those of others stay
         x = Due.settled(7);
         x.ask(0, 0);
         x.crash(1);
-        Due.due("a READ of another", x.readIs(0, 0), 0);
-        // an answered READ stays so
+        Due.due("a READ of another is open", x.readIs(0, 0), 0);
         x.ticks(3);
         x.crash(0);
-        Due.due("an answered READ", x.readIs(0, 0), 1);
+        Due.due("an answered READ stays so", x.readIs(0, 0), 1);
+        x = new TermLog();
+        for (int n = 0; n < 7; n++) Due.due("crash " + n, x.crash(n), true);
+
+        Due.says(3, "false: it is DOWN, no such NODE.");
+        for (int n = 0; n < 7; n++) Due.due("again " + n, x.crash(n), false);
+        for (int n : NO_NODES) Due.due("crash " + n, new TermLog().crash(n), false);
     }
 
     private static void promise4ComeUp() {
+        Due.says(4, "`boolean comeUp(int node)`: A NODE that is DOWN comes up: FOLLOWER, COMMIT BASE, KEYS"
+                + " the SNAPSHOT's, LEADER KNOWN none, it SETS TIMER: true;");
         TermLog x = Due.settled(7);
         x.write(0, 1, 5);
         x.ticks(5);
@@ -152,75 +125,95 @@ public final class PromiseTest {
         }
         Due.due("KEY", x.keyOf(0, 1), 5);
         Due.due("KEY of the SNAPSHOT", x.keyOf(0, 11), 5);
-        Due.due("again", x.comeUp(0), false);
-        Due.due("-1", x.comeUp(-1), false);
-        Due.due("7", x.comeUp(7), false);
-        Due.due("X stays", x.count(6), Due.xBehind(before, 1));
+        x = new TermLog();
+        for (int n = 0; n < 7; n++) {
+            x.crash(n);
+            Due.due("come up " + n, x.comeUp(n), true);
+        }
+
+        Due.says(4, "false: it is UP, no such NODE.");
+        for (int n = 0; n < 7; n++) Due.due("again " + n, x.comeUp(n), false);
+        for (int n : NO_NODES) Due.due("comeUp " + n, new TermLog().comeUp(n), false);
+        before = x.count(6);
+        x.comeUp(0);
+        Due.due("no DRAW", x.count(6), before);
     }
 
     private static void promise5Cut() {
+        Due.says(5, "`boolean cut(int one, int other, boolean is)`: A link between two NODES is cut (true),"
+                + " joined: true;");
         TermLog x = Due.settled(7);
+        Due.quiet(x);
         Due.due("cut", x.cut(0, 1, true), true);
-        Due.due("again", x.cut(1, 0, true), true);
+        Due.due("again, the other way round", x.cut(1, 0, true), true);
         Due.due("one link", x.count(9), 1);
-        Due.tickTill(x, y -> y.count(2) == 0);
-        int before = x.count(8);
         x.write(0, 1, 1);
         Due.due("sent all the same", x.count(2), 2);
         x.ticks(1);
-        Due.due("lost when due", x.count(8), before + 1);
+        Due.due("lost when due", x.count(8), 1);
         Due.due("LAST of 1", x.nodeIs(1, 4), 1);
         Due.due("LAST of 2", x.nodeIs(2, 4), 2);
-        x.write(0, 1, 2);
         Due.due("join", x.cut(0, 1, false), true);
-        x.ticks(1);
-        Due.due("joined when due", x.count(8), before + 1);
+        Due.due("again", x.cut(1, 0, false), true);
         Due.due("no link", x.count(9), 0);
+        x.write(0, 1, 2);
+        x.ticks(1);
+        Due.due("handed over", x.nodeIs(1, 4), 3);
+        int links = 0;
         for (int a = 0; a < 7; a++) {
-            for (int b = 0; b < a; b++) x.cut(a, b, true);
+            for (int b = 0; b < a; b++) {
+                Due.due("cut " + a + b, x.cut(a, b, true), true);
+                links++;
+                Due.due("links cut", x.count(9), links);
+            }
         }
-        Due.due("all links", x.count(9), 21);
-        Due.due("itself", x.cut(3, 3, false), false);
-        Due.due("7", x.cut(3, 7, false), false);
-        Due.due("-1", x.cut(-1, 3, false), false);
-        Due.due("all links stay", x.count(9), 21);
+        Due.due("all of them", links, 21);
+
+        Due.says(5, "false: no such ones, one and itself.");
+        for (int n : NO_NODES) {
+            Due.due("cut " + n + " 0", x.cut(n, 0, true), false);
+            Due.due("cut 0 " + n, x.cut(0, n, true), false);
+            Due.due("join " + n + " 0", x.cut(n, 0, false), false);
+            Due.due("join 0 " + n, x.cut(0, n, false), false);
+            Due.due("cut " + n + " " + n, x.cut(n, n, true), false);
+        }
+        for (int n = 0; n < 7; n++) {
+            Due.due("cut itself " + n, x.cut(n, n, true), false);
+            Due.due("join itself " + n, x.cut(n, n, false), false);
+        }
+        Due.due("links cut yet", x.count(9), 21);
     }
 
     private static void promise6Compact() {
+        Due.says(6, "`boolean compact(int node)`: An UP NODE COMPACTS: true;");
         TermLog x = Due.settled(7);
         x.write(0, 3, 33);
         x.ticks(2);
-        x.write(0, 3, 44);
-        Due.due("COMMIT", x.nodeIs(0, 5), 2);
         Due.due("compact", x.compact(0), true);
         Due.due("BASE", x.nodeIs(0, 6), 2);
-        Due.due("LAST", x.nodeIs(0, 4), 3);
-        Due.due("ENTRY at BASE", x.entryAt(0, 2, 0), -2);
-        Due.due("ENTRY behind", x.entryAt(0, 3, 3), 44);
-        Due.due("KEY", x.keyOf(0, 13), 33);
-        Due.due("again", x.compact(0), false);
-        Due.due("TERM of it", x.nodeIs(0, 13), 1);
-        // the CONFIG as it was at COMMIT, not the later one
-        x = Due.settled(7);
-        x.write(0, 0, 1);
-        x.ticks(2);
-        x.change(0, 15);
-        Due.due("compact below the CONFIG", x.compact(0), true);
-        Due.due("joint", x.nodeIs(0, 9), 15);
-        x.ticks(2);
-        Due.due("HELD", x.nodeIs(0, 5), 3);
-        Due.due("old ones", x.nodeIs(0, 8), 15);
-        Due.due("compact a joint one", x.compact(0), true);
+        Due.due("COMMIT of 1", x.nodeIs(1, 5), 1);
+        Due.due("a FOLLOWER", x.compact(1), true);
+        Due.due("BASE of 1", x.nodeIs(1, 6), 1);
+
+        Due.says(6, "false: COMMIT is BASE, it is DOWN, no such NODE.");
+        Due.due("COMMIT is BASE", x.compact(0), false);
+        Due.due("COMMIT is BASE, of 1", x.compact(1), false);
+        Due.due("COMMIT and BASE 0", x.compact(6), false);
         x.ticks(6);
-        x.compact(0);
-        Due.due("old ones of BASE", x.nodeIs(0, 8), 15);
-        Due.due("new ones of BASE", x.nodeIs(0, 9), 0);
-        Due.due("a DOWN one", x.crash(1) && x.compact(1), false);
-        Due.due("-1", x.compact(-1), false);
-        Due.due("7", x.compact(7), false);
+        Due.due("COMMIT is one more", x.nodeIs(1, 5) - x.nodeIs(1, 6), 1);
+        x.crash(1);
+        Due.due("DOWN", x.compact(1), false);
+        x.comeUp(1);
+        Due.due("COMMIT is BASE as it came up", x.compact(1), false);
+        x.ticks(6);
+        Due.due("COMMIT is one more again", x.compact(1), true);
+        for (int n : NO_NODES) Due.due("compact " + n, x.compact(n), false);
     }
 
     private static void promise7Write() {
+        Due.says(7, "`int write(int node, int key, int value)`: A write of a KEY (0 to 7), a value (0 to"
+                + " 99) to a LEADER that is UP: an ENTRY of its TERM is laid (MATCH of itself LAST), it"
+                + " SENDS TO ALL, then it HOLDS: its INDEX;");
         TermLog x = Due.ledByZero(7);
         Due.due("a write", x.write(0, 7, 99), 2);
         Due.due("MATCH of itself", x.about(0, 0, 1), 2);
@@ -231,417 +224,457 @@ public final class PromiseTest {
             Due.due("ENTRY " + what, x.entryAt(0, 2, what), parts[what]);
         }
         Due.due("the least", x.write(0, 0, 0), 3);
-        for (int i = 0; i < 4; i++) x.write(0, 1, i);
-        Due.due("four ENTRIES at most", x.message(x.count(2) - 1, 5), 4);
         Due.due("not HELD yet", x.count(3), 0);
-        x.ticks(2);
-        // both have what came in one TICK: four by each of the MESSAGES, by which all are HELD
-        Due.due("HELD by a MAJORITY", x.nodeIs(0, 5) >= 4, true);
-        x.ticks(8);
-        Due.due("HELD", x.count(3), 7);
-        Due.due("KEY 1", x.keyOf(2, 1), 3);
+        x.ticks(6);
+        Due.due("HELD", x.count(3), 3);
+        Due.due("KEY 7", x.keyOf(1, 7), 99);
+        x = Due.settled(1);
+        Due.due("one alone", x.write(0, 4, 44), 2);
+        Due.due("it HOLDS", x.keyOf(0, 4), 44);
+        for (int key = 0; key < 8; key++) Due.due("KEY " + key, x.write(0, key, 1), 3 + key);
+
+        Due.says(7, "-2: it is no LEADER, DOWN;");
+        x = Due.settled(7);
         Due.due("a FOLLOWER", x.write(1, 0, 0), -2);
+        Due.due("no MEMBER", x.write(6, 0, 0), -2);
         x.crash(0);
         Due.due("DOWN", x.write(0, 0, 0), -2);
-        Due.due("NODE 7", x.write(7, 0, 0), -1);
-        Due.due("NODE -1", x.write(-1, 0, 0), -1);
-        Due.due("KEY 8", x.write(0, 8, 0), -1);
-        Due.due("KEY -1", x.write(0, -1, 0), -1);
-        Due.due("value 100", x.write(0, 0, 100), -1);
-        Due.due("value -1", x.write(0, 0, -1), -1);
-        oldTermsAreNotHeld();
-        unlikeEntriesGo();
-    }
-
-    /** An ENTRY of an older TERM is HELD only by way of one of the LEADER's own. */
-    private static void oldTermsAreNotHeld() {
-        TermLog x = Due.settled(7);
-        x.crash(1);
-        x.crash(2);
-        for (int i = 1; i <= 6; i++) x.write(0, 4, i);
-        x.crash(0);
-        x.ticks(2);
         x.comeUp(0);
-        x.comeUp(1);
-        x.ticks(x.till(200, 0));
-        Due.due("TERM", x.nodeIs(0, 1), 2);
-        Due.due("own ENTRY", x.entryAt(0, 8, 0), 2);
-        Due.tickTill(x, y -> y.about(0, 1, 1) != 0);
-        Due.due("a MAJORITY has 5", x.about(0, 1, 1), 5);
-        Due.due("of the older TERM", x.entryAt(0, 5, 0), 1);
-        Due.due("not HELD", x.nodeIs(0, 5), 0);
-        Due.tickTill(x, y -> y.about(0, 1, 1) != 5);
-        Due.due("a MAJORITY has 8", x.about(0, 1, 1), 8);
-        Due.due("all HELD by way of its own", x.nodeIs(0, 5), 8);
-        Due.due("HELD at 7", x.heldAt(7, 0), 1);
-        Due.due("HELD at 8", x.heldAt(8, 0), 2);
-        Due.due("KEY", x.keyOf(0, 4), 6);
-    }
+        Due.due("UP again", x.write(0, 0, 0), -2);
+        Due.standSoon(x, 1);
+        x.ticks(4);
+        Due.due("a CANDIDATE", x.nodeIs(1, 3) * 10 + x.write(1, 0, 0), 8);
 
-    /** What a LEADER cut off has laid goes where another one's ENTRIES are HELD. */
-    private static void unlikeEntriesGo() {
-        TermLog x = Due.settled(7);
-        x.ticks(3);
-        x.cut(0, 1, true);
-        x.cut(0, 2, true);
-        for (int i = 1; i < 6; i++) x.write(0, 1, i);
-        Due.law(x, "e4(f=1);e40(f=f)");
-        x.crash(1);
-        x.comeUp(1);
-        x.ticks(20);
-        Due.due("1 leads", x.leaderNow(), 1);
-        Due.due("0 leads, too", x.nodeIs(0, 3), 2);
-        x.write(1, 1, 77);
-        x.ticks(6);
-        Due.due("LAST of 0", x.nodeIs(0, 4), 6);
-        Due.due("LAST of 1", x.nodeIs(1, 4), 3);
-        x.ask(0, 1);
-        x.cut(0, 1, false);
-        x.ticks(10);
-        Due.due("0 follows", x.nodeIs(0, 10), 1);
-        Due.due("its READ is lost", x.readIs(0, 0), 2);
-        Due.due("LAST of 0 then", x.nodeIs(0, 4), 3);
-        Due.due("TERM at 2", x.entryAt(0, 2, 0), 2);
-        Due.due("KEY of 0", x.keyOf(0, 1), 77);
-        Due.due("broken", x.broken(0) + x.broken(1) + x.broken(2), 0);
+        Due.says(7, "-3: no room (40 ENTRIES or more, LAST 999);");
+        x = Due.settled(1);
+        Due.due("38 writes", Due.plan(x, "9(4w001)2w001"), 38);
+        Due.due("at 39 ENTRIES", x.write(0, 0, 1), 40);
+        Due.due("at 40 ENTRIES", x.write(0, 0, 1), -3);
+        Due.due("LAST", x.nodeIs(0, 4), 40);
+        Due.makeLead(x, 0);
+        Due.due("at 41 ENTRIES", x.nodeIs(0, 4) * 10 + x.write(0, 0, 1), 407);
+        x.compact(0);
+        Due.due("at none", x.write(0, 0, 1), 42);
+        x = NodesTest.far(998);
+        x.compact(0);
+        Due.due("LAST 998", x.write(0, 0, 1), 999);
+        Due.due("LAST 999", x.write(0, 0, 1), -3);
+        x.compact(0);
+        Due.due("LAST 999, no ENTRIES", x.write(0, 0, 1), -3);
+
+        Due.says(7, "NONE: no such ones.");
+        x = Due.settled(7);
+        for (int n : NO_NODES) Due.due("NODE " + n, x.write(n, 0, 0), -1);
+        for (int key : new int[] {-1, 8, 9, 10, MAX, MIN}) {
+            Due.due("KEY " + key, x.write(0, key, 0), -1);
+        }
+        for (int value : new int[] {-1, 100, 101, 128, MAX, MIN}) {
+            Due.due("value " + value, x.write(0, 0, value), -1);
+        }
+        Due.due("LAST", x.nodeIs(0, 4), 1);
     }
 
     private static void promise8Change() {
+        Due.says(8, "`int change(int node, int some)`: A change to some NODES (bits 1 to 127) by a LEADER"
+                + " that is UP: an ENTRY of KIND 1 with its CONFIG's old ones, and these as new ones, is"
+                + " laid as a write is: its INDEX;");
         TermLog x = Due.ledByZero(7);
-        Due.due("the same ones, HELD by BASE", x.change(0, 7), -4);
         Due.due("to four", x.change(0, 15), 2);
         int[] parts = {1, 1, 7, 15};
         for (int what = 0; what < 4; what++) {
             Due.due("joint ENTRY " + what, x.entryAt(0, 2, what), parts[what]);
         }
-        Due.due("while joint", x.change(0, 3), -4);
-        Due.due("sent to a new one", x.message(x.count(2) - 1, 1), 3);
-        Due.tickTill(x, y -> y.nodeIs(0, 9) == 0);
-        Due.due("the last of it", x.entryAt(0, 3, 2), 15);
-        Due.due("none new", x.entryAt(0, 3, 3), 0);
-        Due.due("not HELD yet", x.change(0, 3), -4);
-        x.ticks(8);
+        Due.due("MATCH of itself", x.about(0, 0, 1), 2);
+        Due.due("sent to all", Due.way(x), "012 022 012 022 032 ");
+        x.ticks(12);
         Due.due("all have it", x.nodeIs(3, 8), 15);
-        Due.due("the same ones", x.change(0, 15), -4);
-        Due.due("a FOLLOWER", x.change(1, 3), -2);
-        Due.due("DOWN", x.crash(6) ? x.change(6, 3) : 0, -2);
-        Due.due("0", x.change(0, 0), -1);
-        Due.due("128", x.change(0, 128), -1);
-        Due.due("7", x.change(7, 3), -1);
-        Due.due("-1", x.change(-1, 3), -1);
-        Due.due("127", x.change(0, 127), 4);
-        bothMajorities();
-        leaderLeaves();
-        jointTakenOver();
-        Due.due("1 alone", Due.settled(7).change(0, 1), 2);
-    }
+        Due.due("1", Due.settled(7).change(0, 1), 2);
+        Due.due("127", Due.settled(7).change(0, 127), 2);
+        Due.due("126", Due.settled(7).change(0, 126), 2);
+        x = Due.settled(3);
+        Due.due("one of two", x.change(0, 1), 2);
+        x = Due.settled(1);
+        Due.due("one alone, to two", x.change(0, 3), 2);
+        Due.due("not HELD by one", x.nodeIs(0, 5), 1);
 
-    private static void bothMajorities() {
-        // of the old ones 0, 1, 2 two are UP, of the new ones 0, 3, 4 only 0
-        TermLog x = Due.settled(7);
-        x.crash(2);
-        x.crash(3);
-        x.crash(4);
-        x.change(0, 25);
-        x.ticks(20);
-        Due.due("no MAJORITY of the new ones", x.nodeIs(0, 9), 25);
-        Due.due("COMMIT", x.nodeIs(0, 5), 1);
-        x.comeUp(3);
-        x.ticks(20);
-        Due.due("both", x.nodeIs(0, 8), 25);
-        Due.due("not joint", x.nodeIs(0, 9), 0);
-        Due.due("COMMIT then", x.nodeIs(0, 5), 3);
-        // of the new ones all are UP, of the old ones only 0
+        Due.says(8, "-2: it is no LEADER, DOWN; -3: no room (as above);");
         x = Due.settled(7);
-        x.crash(1);
-        x.crash(2);
-        x.change(0, 25);
-        x.ticks(20);
-        Due.due("no MAJORITY of the old ones", x.nodeIs(0, 9), 25);
-        x.comeUp(1);
-        x.ticks(20);
-        Due.due("both again", x.nodeIs(0, 9), 0);
-    }
-
-    private static void leaderLeaves() {
-        TermLog x = Due.settled(7);
-        x.write(0, 1, 1);
-        x.change(0, 6);
-        x.ask(0, 1);
-        Due.tickTill(x, y -> y.nodeIs(0, 3) != 2);
-        Due.due("FOLLOWER", x.nodeIs(0, 3), 0);
-        Due.due("LEADER KNOWN", x.nodeIs(0, 10), -2);
-        Due.due("it HELD its going", x.nodeIs(0, 5), 4);
-        Due.due("old ones", x.nodeIs(0, 8), 6);
-        int term = x.nodeIs(0, 1);
-        int way = x.count(2);
-        x.crash(1);
-        x.crash(2);
-        x.ticks(120);
-        Due.due("no MEMBER stands not", x.nodeIs(0, 1), term);
-        Due.due("nothing is sent", x.count(2) <= way, true);
-        Due.due("no MEMBER could win", x.couldWin(0, 0), -2);
-    }
-
-    /** A LEADER whose SNAPSHOT has a joint CONFIG lays the new one as soon as it LEADS. */
-    private static void jointTakenOver() {
-        TermLog x = Due.settled(7);
-        x.cut(0, 3, true);
-        x.change(0, 15);
-        x.ticks(1);
-        Due.law(x, "e40(f=f);x(k=2)");
-        x.ticks(1);
-        Due.due("the joint one is HELD", x.nodeIs(0, 5), 2);
-        Due.due("COMPACT", x.compact(0), true);
-        x.cut(0, 3, false);
-        Due.tickTill(x, y -> y.nodeIs(3, 6) == 2);
-        Due.due("joint by the SNAPSHOT", x.nodeIs(3, 9), 15);
-        Due.due("the last one did not come", x.nodeIs(1, 4), 2);
+        Due.due("a FOLLOWER", x.change(1, 3), -2);
+        Due.due("no MEMBER", x.change(6, 3), -2);
         x.crash(0);
-        Due.law(x, "e4(f=3);e40(f=f)");
-        x.crash(3);
-        x.comeUp(3);
-        x.ticks(x.till(200, 0));
-        Due.due("3 LEADS", x.leaderNow(), 3);
-        Due.due("nothing, at first", x.entryAt(3, 3, 1), 2);
-        Due.due("then a CONFIG", x.entryAt(3, 4, 1), 1);
-        Due.due("of the new ones", x.entryAt(3, 4, 2), 15);
-        Due.due("not joint", x.nodeIs(3, 9), 0);
-        Due.due("sent to all, twice", x.count(2), 6);
-        x.ticks(9);
-        Due.due("HELD", x.nodeIs(3, 5), 4);
-        Due.due("broken", x.broken(0) + x.broken(1) + x.broken(2), 0);
+        Due.due("DOWN", x.change(0, 3), -2);
+        x = Due.settled(1);
+        Due.plan(x, "9(4w001)2w001");
+        Due.due("at 39 ENTRIES", x.change(0, 3), 40);
+        x = Due.settled(1);
+        Due.plan(x, "9(4w001)3w001");
+        Due.due("at 40 ENTRIES", x.change(0, 3), -3);
+        x = NodesTest.far(998);
+        x.compact(0);
+        Due.due("LAST 998", x.change(0, 3), 999);
+        x = NodesTest.far(999);
+        x.compact(0);
+        Due.due("LAST 999", x.change(0, 3), -3);
+
+        Due.says(8, "-4: its CONFIG is joint, not HELD by its COMMIT yet, or is these;");
+        x = Due.settled(7);
+        Due.due("is these, by BASE", x.change(0, 7), -4);
+        Due.due("others", x.change(0, 11), 2);
+        Due.due("joint, not HELD", x.change(0, 7), -4);
+        Due.due("joint, not HELD, to the new ones", x.change(0, 11), -4);
+        Due.tickTill(x, y -> y.nodeIs(0, 9) == 0);
+        Due.due("the last is laid, not HELD", x.nodeIs(0, 5) < 3, true);
+        Due.due("not HELD yet", x.change(0, 3), -4);
+        Due.tickTill(x, y -> y.nodeIs(0, 5) == 3);
+        Due.due("HELD, is these", x.change(0, 11), -4);
+        Due.due("HELD, others", x.change(0, 3), 4);
+        // joint and HELD, but that there was no room for the last
+        x = NodesTest.far(998);
+        x.compact(0);
+        x.change(0, 3);
+        x.ticks(12);
+        Due.due("joint, HELD, no room", x.nodeIs(0, 5) * 10 + x.nodeIs(0, 9), 9993);
+
+        Due.says(8, "NONE: no such ones.");
+        x = Due.settled(7);
+        for (int n : NO_NODES) Due.due("NODE " + n, x.change(n, 3), -1);
+        for (int some : new int[] {0, -1, 128, 129, 255, MAX, MIN}) {
+            Due.due("bits " + some, x.change(0, some), -1);
+        }
+        Due.due("LAST", x.nodeIs(0, 4), 1);
     }
 
     private static void promise9Ask() {
+        Due.says(9, "`int ask(int node, int key)`: A READ of a KEY of a NODE: its number; -2: it is no"
+                + " LEADER, DOWN; -3: 16 were asked; -4: the ENTRY at COMMIT is not of its TERM;");
         TermLog x = Due.ledByZero(7);
         Due.due("too early", x.ask(0, 0), -4);
         x.ticks(6);
-        x.write(0, 0, 10);
-        int round = x.nodeIs(0, 12);
-        Due.due("a READ", x.ask(0, 0), 0);
-        Due.due("ROUND", x.nodeIs(0, 12), round + 1);
-        Due.due("another", x.ask(0, 7), 1);
-        Due.due("ROUND again", x.nodeIs(0, 12), round + 2);
-        Due.due("open", x.readIs(0, 0), 0);
-        x.ticks(1);
-        Due.due("open yet", x.readIs(0, 0), 0);
-        x.ticks(1);
-        Due.due("answered", x.readIs(0, 0), 1);
-        Due.due("by the KEY as it is", x.readIs(0, 1), 10);
-        Due.due("answered, too", x.readIs(1, 0), 1);
+        for (int i = 0; i < 8; i++) {
+            Due.due("KEY " + i, x.ask(0, i), i);
+            Due.due("its KEY", x.readIs(i, 3), i);
+        }
         Due.due("a FOLLOWER", x.ask(1, 0), -2);
-        Due.due("NODE 7", x.ask(7, 0), -1);
-        Due.due("NODE -1", x.ask(-1, 0), -1);
-        Due.due("KEY 8", x.ask(0, 8), -1);
-        Due.due("KEY -1", x.ask(0, -1), -1);
-        // HEART 0: the next ROUND is three TICKS away
-        round = x.nodeIs(0, 12);
-        x.ask(0, 0);
-        x.ticks(2);
-        Due.due("no ROUND in two TICKS", x.nodeIs(0, 12), round + 1);
-        x.ticks(1);
-        Due.due("a ROUND in the third", x.nodeIs(0, 12), round + 2);
-        // without a MAJORITY it stays open, with one that heard a later ROUND it is answered
-        x.crash(1);
-        x.crash(2);
-        x.ask(0, 0);
-        x.ticks(9);
-        Due.due("open without a MAJORITY", x.readIs(3, 0), 0);
-        x.comeUp(1);
-        x.ticks(6);
-        Due.due("answered by a later ROUND", x.readIs(3, 0), 1);
+        Due.due("no MEMBER", x.ask(6, 0), -2);
+        for (int i = 8; i < 16; i++) Due.due("READ " + i, x.ask(0, 0), i);
+        Due.due("a 17th", x.ask(0, 0), -3);
         x.crash(0);
         Due.due("DOWN", x.ask(0, 0), -2);
+        x = Due.settled(7);
+        Due.makeLead(x, 0);
+        Due.due("COMMIT 0 at TERM 2", x.ask(0, 0), -4);
+
+        Due.says(9, "NONE: no such ones.");
+        x = Due.settled(7);
+        for (int n : NO_NODES) Due.due("NODE " + n, x.ask(n, 0), -1);
+        for (int key : new int[] {-1, 8, 9, 10, MAX, MIN}) {
+            Due.due("KEY " + key, x.ask(0, key), -1);
+        }
+        Due.due("none is asked", x.count(7), 0);
     }
 
     private static void promise10Feed() {
+        Due.says(10, "`int feed(int a, int b, int c, int d, int e)`: Twenty bytes come behind the tape, the"
+                + " highest of each int first: how many it has;");
         TermLog x = new TermLog();
         Due.due("feed", x.feed(0x01020304, 0x05060708, -1, 0, 0), 20);
         Due.due("feed again", x.feed(0, 0, 0, 0, 0), 40);
-        // the highest byte first: told by the PLAN they are
+        Due.due("bytes", x.count(5), 40);
         x = new TermLog();
         x.feed('.' << 24 | '2' << 16 | '.' << 8 | 'k', '5' << 24, 0, 0, 0);
         Due.due("the highest byte first", x.plan(5), 3 + 1);
         Due.due("crashed", x.nodeIs(5, 0), 0);
         x = new TermLog();
-        x.feed(0x80818283, 0, 0, 0, 0);
-        Due.due("a byte above 127", x.plan(1), -1000);
         x.feed(0x2E2E2E2E, 0x2E2E2E2E, 0x2E2E2E2E, 0x2E2E2E2E, 0x2E2E2E2E);
-        Due.due("twenty", x.plan(20), 20);
+        x.feed(0x2E2E2E2E, 0x2E2E2E2E, 0x2E2E2E2E, 0x2E2E2E2E, 0x2E2E2E6B);
+        Due.due("forty, the last not so", x.plan(40), -1040);
+        // a byte is 0 to 255
+        for (int b : new int[] {0x00, 0x7F, 0x80, 0xFF}) {
+            for (int shift = 0; shift < 32; shift += 8) {
+                x = new TermLog();
+                for (int n = 0; n < 7; n++) x.crash(n);
+                x.feed(~0 & ~(255 << shift) | (255 & b) << shift, 0, 0, 0, 0);
+                int want = b == 255 ? -1 : 3 - shift / 8;
+                Due.due("byte " + b + " at " + shift, x.check(4), want);
+            }
+        }
+        // behind the tape: the first twenty are the first
+        x = new TermLog();
+        Due.feed(x, "k1k2k3k4k5k6u1u2u3u4");
+        Due.feed(x, "k1..................");
+        Due.due("twenty and two", x.plan(22), 11);
+        Due.due("1, 5, 6 are DOWN", x.count(1), 127 - 2 - 32 - 64);
+
+        Due.says(10, "NONE if that would be more than 260.");
+        x = new TermLog();
+        for (int i = 1; i <= 12; i++) x.feed(0, 0, 0, 0, i);
+        Due.due("240", x.count(5), 240);
+        Due.due("a 13th", x.feed(0, 0, 0, 0, 13), 260);
+        Due.due("a 14th", x.feed(1, 2, 3, 4, 5), -1);
+        Due.due("260 stay", x.count(5), 260);
+        Due.due("again", x.feed(-1, -1, -1, -1, -1), -1);
+        Due.due("the first ones are as they were", x.check(8), -1);
+        Due.due("empty", x.count(5), 0);
+        Due.due("room again", x.feed(1, 2, 3, 4, 5), 20);
     }
 
     private static void promise11Law() {
+        Due.says(11, "`int law(int n)`: THE LAW by the first n bytes of the tape (1 to 240; empty then), in"
+                + " place of the one before: how many RULES;");
         TermLog x = new TermLog();
         Due.due("a LAW", Due.law(x, "d2(k=0);l3(t=1);e9(f=f);x(w>8)"), 4);
         Due.due("RULES", x.count(4), 4);
-        Due.due("a FAULT", Due.law(x, "d2(k=0);l3"), -1010);
-        Due.due("RULES stay", x.count(4), 4);
+        Due.due("empty then", x.count(5), 0);
+        x.crash(1);
+        x.comeUp(1);
+        Due.due("asked", x.nodeIs(1, 7) - x.count(6) % 10, 9);
+        Due.due("another", Due.law(x, "d1(f=f)"), 1);
+        Due.due("in place of it", x.count(4), 1);
+        x.crash(1);
+        x.comeUp(1);
+        Due.due("asked no more", x.nodeIs(1, 7) - x.count(6) % 10, 8);
+        // the first n bytes of more
+        Due.feed(x, "x(f=0);e9(f=f)");
+        Due.due("law(6) of 20", x.law(6), 1);
+        Due.due("empty then, all of it", x.count(5), 0);
+        for (int i = 0; i < 13; i++) Due.feed(x, "x(f=0);x(f=00000=0);".substring(0, 20));
+        Due.due("law(1) of 260", x.law(1), -1001);
+        Due.due("empty then, of 260", x.count(5), 0);
+
+        Due.says(11, "a FAULT: -1000 times its number, less its place (the one before stays);");
+        x = new TermLog();
+        Due.law(x, "e20(f=f);x(f=0)");
+        Due.due("FAULT 1 at 0", Due.law(x, "y"), -1000);
+        Due.due("FAULT 1 at 10", Due.law(x, "d2(k=0);l3"), -1010);
+        Due.due("FAULT 2 at 6", Due.law(x, "d123456"), -2006);
+        Due.due("FAULT 5 at 7", Due.law(x, "x((((((("), -5007);
+        String long1 = "e" + "1+".repeat(119);
+        Due.due("FAULT 1 at 239", Due.law(x, long1), -1239);
+        Due.due("FAULT 1 at 240", Due.law(x, long1 + "1"), -1240);
+        Due.due("RULES stay", x.count(4), 2);
+        Due.due("empty then", x.count(5), 0);
+        x.crash(1);
+        x.comeUp(1);
+        Due.due("and are asked", x.nodeIs(1, 7) - x.count(6) % 10, 20);
+
+        Due.says(11, "NONE: no such n, it has not so many (the tape stays).");
+        x = new TermLog();
+        Due.due("law(1) of none", x.law(1), -1);
+        Due.feed(x, "x(f=0);d1(f=f);d2(f=f)".substring(0, 20));
+        for (int n : new int[] {0, -1, 21, 240, 241, 260, MAX, MIN}) {
+            Due.due("law(" + n + ") of 20", x.law(n), -1);
+            Due.due("the tape stays", x.count(5), 20);
+        }
+        Due.due("law(14) of 20", x.law(14), 2);
+        for (int i = 0; i < 13; i++) Due.feed(x, "+1+1+1+1+1+1+1+1+1+1");
+        Due.due("law(241) of 260", x.law(241), -1);
+        Due.due("the tape stays at 260", x.count(5), 260);
+        Due.due("law(240) of 260", x.law(240), -1000);
+        Due.due("empty then", x.count(5), 0);
     }
 
     private static void promise12Plan() {
+        Due.says(12, "`int plan(int n)`: A PLAN by the first n bytes of the tape (1 to 120; empty then): how"
+                + " many ACTS were not refused (a TICK that did not go by, true as false, an answer below"
+                + " 0 is refused);");
         TermLog x = new TermLog();
         Due.due("a PLAN", Due.plan(x, "3.k0u0u1x01"), 6);
+        Due.due("empty then", x.count(5), 0);
+        Due.due("crashes once", Due.plan(x, "3k0"), 1);
+        Due.due("comes up once", Due.plan(x, "3u0"), 1);
+        Due.due("UP comes up", Due.plan(x, "u0"), 0);
+        Due.due("nothing to COMPACT", Due.plan(x, "c0"), 0);
+        Due.due("a write to none that LEADS", Due.plan(x, "w011"), 0);
+        Due.due("a READ of none that LEADS", Due.plan(x, "r01"), 0);
+        Due.due("cut twice", Due.plan(x, "2x01"), 2);
+        Due.due("joined twice", Due.plan(x, "2j01"), 2);
+        x = Due.ledByZero(7);
+        Due.due("a READ too early", Due.plan(x, "r01"), 0);
+        x = Due.settled(7);
+        Due.due("READS 0 to 15, not -3", Due.plan(x, "9(2r01)"), 16);
+        Due.due("READS asked", x.count(7), 16);
+        x = Due.settled(1);
+        Due.due("writes till there is no room", Due.plan(x, "9(9w001)"), 39);
+        Due.due("COMPACTS once", Due.plan(x, "2c0w001"), 2);
+        x = new TermLog();
+        for (int i = 0; i < 49; i++) x.ticks(200);
+        x.ticks(197);
+        Due.due("THE TICK", x.count(0), 9997);
+        Due.due("of four TICKS two", Due.plan(x, "4.k0"), 3);
+        // the first n bytes of more
+        x = new TermLog();
+        Due.feed(x, ".".repeat(140));
+        Due.due("plan(120) of 140", x.plan(120), 120);
+        Due.due("empty then, all of it", x.count(5), 0);
+        Due.feed(x, ".");
+        Due.due("plan(1) of 20", x.plan(1), 1);
+        Due.due("empty then, of 20", x.count(5), 0);
+
+        Due.says(12, "a FAULT (nothing is done); NONE: as above.");
+        x = new TermLog();
         Due.due("a FAULT", Due.plan(x, "3.k9"), -1003);
-        Due.due("THE TICK", x.count(0), 3);
+        Due.due("THE TICK", x.count(0), 0);
+        Due.due("empty then", x.count(5), 0);
+        Due.due("at the end", Due.plan(x, ".".repeat(119) + "k"), -1120);
+        Due.due("THE TICK yet", x.count(0), 0);
+        Due.due("plan(1) of none", x.plan(1), -1);
+        Due.feed(x, ".....");
+        for (int n : new int[] {0, -1, 21, 120, 121, 240, MAX, MIN}) {
+            Due.due("plan(" + n + ") of 20", x.plan(n), -1);
+            Due.due("the tape stays", x.count(5), 20);
+        }
+        Due.due("THE TICK stays", x.count(0), 0);
+        Due.feed(x, ".".repeat(120));
+        Due.due("plan(121) of 140", x.plan(121), -1);
+        Due.due("the tape stays at 140", x.count(5), 140);
     }
 
     private static void promise13Ticks() {
+        Due.says(13, "`int ticks(int n)`: TICKS (1 to 200; as many as can) go by: how many INDEXES were HELD"
+                + " FOR SURE in them; NONE: no such n.");
         TermLog x = new TermLog();
         Due.due("ticks(200)", x.ticks(200) >= 1, true);
         Due.due("THE TICK", x.count(0), 200);
         Due.due("ticks(1)", x.ticks(1), 0);
-        Due.due("THE TICK", x.count(0), 201);
-        Due.due("ticks(0)", x.ticks(0), -1);
-        Due.due("ticks(201)", x.ticks(201), -1);
-        Due.due("ticks(-1)", x.ticks(-1), -1);
+        Due.due("ticks(199)", x.ticks(199), 0);
+        Due.due("THE TICK then", x.count(0), 400);
+        for (int n : NO_COUNTS) Due.due("ticks(" + n + ")", x.ticks(n), -1);
+        Due.due("THE TICK stays", x.count(0), 400);
         x = Due.settled(7);
+        Due.quiet(x);
         for (int i = 0; i < 3; i++) x.write(0, 0, 0);
         Due.due("HELD in one", x.ticks(1), 0);
         Due.due("HELD in two", x.ticks(1), 3);
-        heartbeats();
-        elections();
-    }
-
-    private static void heartbeats() {
-        TermLog x = Due.ledByZero(127);
-        int round = x.nodeIs(0, 12);
-        Due.due("ROUND at first", round, 1);
-        x.ticks(2);
-        Due.due("HEART 3 where it stood", x.nodeIs(0, 12), 2);
-        x.ticks(2);
-        Due.due("none in two TICKS", x.nodeIs(0, 12), 2);
-        x.ticks(1);
-        Due.due("one in three", x.nodeIs(0, 12), 3);
-        x.ticks(30);
-        Due.due("ten in thirty", x.nodeIs(0, 12), 13);
-        Due.due("HEARD of 6", x.about(0, 6, 2) >= 12, true);
-        Due.due("6 follows", x.nodeIs(6, 10), 0);
-        Due.due("TERM", x.nodeIs(6, 1), 1);
-    }
-
-    private static void elections() {
-        // 0 stands: TERM, VOTE, TIMER; KIND 0 to each other MEMBER, by numbers
-        TermLog x = new TermLog();
-        Due.law(x, "e4(f=1);e40(f=f)");
-        x.found(14);
-        Due.tickTill(x, y -> y.nodeIs(1, 3) == 1);
-        Due.due("TERM", x.nodeIs(1, 1), 1);
-        Due.due("VOTE", x.nodeIs(1, 2), 1);
-        Due.due("VOTES", x.nodeIs(1, 11), 2);
-        Due.due("LEADER KNOWN", x.nodeIs(1, 10), -2);
-        Due.due("calls", x.count(2), 2);
-        Due.due("to 2", x.message(0, 1), 2);
-        Due.due("to 3", x.message(1, 1), 3);
-        Due.due("KIND 0", x.message(1, 2), 0);
-        x.ticks(1);
-        Due.due("2 voted", x.nodeIs(2, 2), 1);
-        Due.due("2 has the TERM", x.nodeIs(2, 1), 1);
-        Due.due("0 knows of nothing", x.nodeIs(0, 1), 0);
-        Due.due("KIND 1", x.message(0, 2), 1);
-        Due.due("its TERM", x.message(0, 3), 1);
-        x.ticks(1);
-        Due.due("it LEADS", x.nodeIs(1, 3), 2);
-        Due.due("by two VOTES and a third", x.nodeIs(1, 11) & 6, 6);
-        Due.due("HEART and ROUND", x.nodeIs(1, 12), 1);
-        // one whose LOG is behind gets no VOTE
-        x = Due.settled(7);
-        x.cut(0, 2, true);
-        x.write(0, 0, 1);
-        x.ticks(4);
-        x.crash(0);
-        Due.law(x, "e4(f=2);e40(f=f)");
-        x.crash(2);
-        x.comeUp(2);
-        x.ticks(30);
-        Due.due("2 stood", x.nodeIs(2, 1) > 1, true);
-        Due.due("2 leads not", x.leaderNow(), -2);
-        Due.due("1 took its TERM", x.nodeIs(1, 1) >= x.nodeIs(2, 1) - 1, true);
-        Due.due("1 has no VOTE", x.nodeIs(1, 2), -2);
-        // one of the same TERM votes once
-        x = new TermLog();
-        Due.law(x, "e4(f<2);e40(f=f);x(k=0&f+t=1)");
-        x.seed(0);
-        x.found(15);
-        x.ticks(60);
-        Due.due("some LEADER at last", x.leaderNow() >= 0, true);
-        Due.due("nothing BROKEN", x.broken(0), 0);
+        Due.due("HELD in three", x.ticks(1), 0);
+        for (int i = 0; i < 49; i++) x.ticks(200);
+        x.ticks(9990 - x.count(0));
+        x.write(0, 0, 0);
+        Due.due("as many as can: HELD", x.ticks(200), 1);
+        Due.due("as many as can: THE TICK", x.count(0), 9999);
+        Due.due("none can", x.ticks(200), 0);
     }
 
     private static void promise14Tried() {
+        Due.says(14, "`int tried(int n, int what)`: TICKS (1 to 200; as many as can) that are tried, what 0"
+                + " INDEXES HELD FOR SURE in them, 1 LEADER NOW then (none: -2), 2 MESSAGES on their way, 3"
+                + " promises BROKEN then,");
         TermLog x = new TermLog();
-        Due.due("no LEADER yet", x.tried(11, 1), -2);
-        Due.due("a LEADER", x.tried(12, 1), 0);
-        Due.due("HELD", x.tried(14, 0), 1);
-        Due.due("on their way", x.tried(12, 2), 2);
-        Due.due("BROKEN", x.tried(200, 3), 0);
-        Due.due("COMMIT", x.tried(14, 10), 1);
-        Due.due("TERM", x.tried(14, 21), 1);
-        Due.due("ROLE", x.tried(14, 30), 2);
+        Due.due("no LEADER in 11", x.tried(11, 1), -2);
+        Due.due("a LEADER in 12", x.tried(12, 1), 0);
+        Due.due("none HELD in 13", x.tried(13, 0), 0);
+        Due.due("HELD in 14", x.tried(14, 0), 1);
+        Due.due("on their way in 12", x.tried(12, 2), 2);
+        Due.due("BROKEN in 200", x.tried(200, 3), 0);
+        Due.due("THE TICK", x.count(0), 0);
+        Due.due("X", x.count(6), 65216);
+        x.ticks(14);
+        Due.due("HELD in them, not before", x.tried(1, 0), 0);
+        x.write(0, 0, 1);
+        x.write(0, 0, 2);
+        Due.due("two HELD in them", x.tried(200, 0), 2);
+        for (int i = 0; i < 49; i++) x.ticks(200);
+        x.ticks(9998 - x.count(0));
+        Due.due("as many as can", x.tried(200, 2), x.tried(1, 2));
+
+        Due.says(14, "10 + k COMMIT, 20 + k TERM, 30 + k ROLE of NODE k then (DOWN: COMMIT as it was when it"
+                + " crashed, ROLE 0);");
+        x = new TermLog();
+        Due.due("COMMIT of 0", x.tried(14, 10), 1);
+        Due.due("COMMIT of 1", x.tried(14, 11), 0);
+        Due.due("TERM of 1", x.tried(14, 21), 1);
+        Due.due("TERM of 3", x.tried(14, 23), 0);
+        Due.due("ROLE of 0", x.tried(14, 30), 2);
+        Due.due("ROLE of 0 in 10", x.tried(10, 30), 1);
         Due.due("ROLE of 6", x.tried(14, 36), 0);
-        Due.due("nothing is changed", x.count(0), 0);
-        Due.due("nor X", x.count(6), 65216);
-        for (int what : new int[] {-1, 4, 9, 17, 18, 19, 27, 29, 37, 40, 100}) {
-            Due.due("what " + what, x.tried(1, what), -1);
-        }
-        Due.due("0 TICKS", x.tried(0, 0), -1);
-        Due.due("201 TICKS", x.tried(201, 0), -1);
         x = Due.settled(7);
         x.write(0, 1, 1);
         x.ticks(4);
         x.crash(0);
         Due.due("COMMIT as it was", x.tried(1, 10), 2);
+        Due.due("COMMIT as it was in 200", x.tried(200, 10), 2);
         Due.due("ROLE of one DOWN", x.tried(1, 30), 0);
         Due.due("TERM of one DOWN", x.tried(1, 20), 1);
         Due.due("COMMIT asked now", x.nodeIs(0, 5), -2);
-        // what comes is what was tried
-        TermLog y = new TermLog();
-        for (int n = 1; n < 60; n += 7) {
-            int leader = y.tried(n, 1);
-            int way = y.tried(n, 2);
-            int held = y.tried(n, 0);
-            Due.due("HELD as tried", y.ticks(n), held);
-            Due.due("LEADER as tried", y.leaderNow(), leader);
-            Due.due("on their way as tried", y.count(2), way);
+
+        Due.says(14, "NONE: no such ones.");
+        for (int what : new int[] {-1, 4, 5, 9, 17, 18, 19, 27, 28, 29, 37, 40, 100, MAX, MIN}) {
+            Due.due("what " + what, x.tried(1, what), -1);
+        }
+        for (int n : NO_COUNTS) {
+            Due.due("tried(" + n + ", 0)", x.tried(n, 0), -1);
+            Due.due("tried(" + n + ", 10)", x.tried(n, 10), -1);
         }
     }
 
     private static void promise15NodeIs() {
+        Due.says(15, "`int nodeIs(int node, int what)`: Of a NODE, what 0 UP (1, 0), 1 TERM, 2 VOTE (none:"
+                + " -2), 3 ROLE, 4 LAST, 5 COMMIT, 6 BASE, 7 TIMER, 8 old ones, 9 new ones of its CONFIG,"
+                + " 10 LEADER KNOWN (none: -2), 11 VOTES, 12 ROUND");
         TermLog x = Due.settled(7);
-        int[] leader = {1, 1, 0, 2, 1, 1, 0, -9, 7, 0, 0, -9, -9, 1};
-        for (int what = 0; what < 14; what++) {
+        Due.law(x, "e20-w(f=f)");
+        x.write(0, 0, 1);
+        x.ticks(6);
+        Due.quiet(x);
+        x.compact(0);
+        x.change(0, 79);
+        int[] leader = {1, 1, 0, 2, 3, 2, 2, -9, 7, 79, 0, 3, -9};
+        for (int what = 0; what < 13; what++) {
             if (leader[what] != -9) Due.due("LEADER " + what, x.nodeIs(0, what), leader[what]);
         }
-        Due.due("LEADER's VOTES", x.nodeIs(0, 11) >= 3, true);
-        Due.due("LEADER's ROUND", x.nodeIs(0, 12) > 1, true);
-        int round = x.nodeIs(0, 12);
-        int[] follower = {1, 1, 0, 0, 1, 1, 0, -9, 7, 0, 0, 0, 0, 1};
-        for (int what = 0; what < 14; what++) {
-            if (follower[what] != -9) Due.due("FOLLOWER " + what, x.nodeIs(1, what), follower[what]);
+        x.ticks(1);
+        int[] follower = {1, 1, 0, 0, 3, 2, 0, 19, 7, 79, 0, 0, 0};
+        for (int what = 0; what < 13; what++) {
+            Due.due("FOLLOWER " + what, x.nodeIs(1, what), follower[what]);
         }
-        Due.due("14", x.nodeIs(0, 14), -1);
-        Due.due("-1", x.nodeIs(0, -1), -1);
-        Due.due("NODE 7", x.nodeIs(7, 0), -1);
-        Due.due("NODE -1", x.nodeIs(-1, 0), -1);
-        x.crash(2);
-        Due.due("14 of one DOWN", x.nodeIs(2, 14), -1);
-        // VOTES and ROUND as they were last
+        int[] other = {1, 0, -2, 0, 0, 0, 0, -9, 7, 0, -2, 0, 0};
+        for (int what = 0; what < 13; what++) {
+            if (what != 7) Due.due("no MEMBER " + what, x.nodeIs(5, what), other[what]);
+        }
+
+        Due.says(15, "(both as they were last; behind coming up, FOUNDED: 0), 13 the TERM of LAST");
+        x = Due.settled(7);
         int votes = x.nodeIs(0, 11);
         x.cut(0, 1, true);
         x.cut(0, 2, true);
-        x.comeUp(2);
-        Due.law(x, "e4(f=1);e40(f=f)");
-        x.crash(1);
-        x.comeUp(1);
-        x.ticks(20);
+        Due.makeLead(x, 1);
+        int round = x.nodeIs(0, 12);
         x.cut(0, 1, false);
-        x.ticks(4);
-        Due.due("FOLLOWER now", x.nodeIs(0, 3), 0);
-        Due.due("VOTES stay", x.nodeIs(0, 11), votes);
-        Due.due("ROUND stays", x.nodeIs(0, 12) > round, true);
+        Due.law(x, "e40(f=f)");
+        Due.tickTill(x, y -> y.nodeIs(0, 3) == 0);
+        Due.due("VOTES as they were last", x.nodeIs(0, 11), votes);
+        Due.due("ROUND as it was last", x.nodeIs(0, 12) >= round, true);
+        round = x.nodeIs(0, 12);
+        x.ticks(6);
+        Due.due("ROUND stays", x.nodeIs(0, 12), round);
+        Due.due("TERM of LAST", x.nodeIs(0, 13), 2);
+        x.crash(0);
+        x.comeUp(0);
+        Due.due("VOTES behind coming up", x.nodeIs(0, 11), 0);
+        Due.due("ROUND behind coming up", x.nodeIs(0, 12), 0);
+        Due.due("TERM of LAST behind coming up", x.nodeIs(0, 13), 2);
+        Due.due("VOTES of 1", x.nodeIs(1, 11) != 0, true);
+        x.found(7);
+        Due.due("VOTES, FOUNDED", x.nodeIs(1, 11), 0);
+        Due.due("ROUND, FOUNDED", x.nodeIs(1, 12), 0);
+        Due.due("TERM of LAST, FOUNDED", x.nodeIs(1, 13), 0);
+
+        Due.says(15, "(DOWN: of 3, 5, 7, 10 to 12 -2); NONE: no such ones.");
+        x = Due.settled(7);
+        x.crash(2);
+        int[] down = {0, 1, 0, -2, 1, -2, 0, -2, 7, 0, -2, -2, -2, 1};
+        for (int what = 0; what < 14; what++) {
+            Due.due("DOWN " + what, x.nodeIs(2, what), down[what]);
+        }
+        for (int what : new int[] {-1, 14, 15, MAX, MIN}) {
+            Due.due("what " + what, x.nodeIs(0, what), -1);
+            Due.due("what " + what + " of one DOWN", x.nodeIs(2, what), -1);
+        }
+        for (int n : NO_NODES) Due.due("NODE " + n, x.nodeIs(n, 0), -1);
     }
 
     private static void promise16EntryAt() {
+        Due.says(16, "`int entryAt(int node, int index, int what)`: An ENTRY of a NODE by INDEX (1 to 999),"
+                + " what 0 TERM, 1 KIND, 2 KEY or old ones, 3 value or new ones;");
         TermLog x = Due.settled(7);
         x.write(0, 6, 66);
         x.change(0, 23);
@@ -651,164 +684,98 @@ public final class PromiseTest {
                 Due.due("ENTRY", x.entryAt(0, i + 1, what), all[i][what]);
             }
         }
+        Due.due("999", NodesTest.far(999).entryAt(0, 999, 3), 1);
+
+        Due.says(16, "-2: there is none (up to BASE, behind LAST); NONE: no such ones.");
         Due.due("behind LAST", x.entryAt(0, 4, 0), -2);
-        Due.due("999", x.entryAt(0, 999, 3), -2);
-        Due.due("1000", x.entryAt(0, 1000, 0), -1);
-        Due.due("0", x.entryAt(0, 0, 0), -1);
-        Due.due("what 4", x.entryAt(0, 1, 4), -1);
-        Due.due("what -1", x.entryAt(0, 1, -1), -1);
-        Due.due("NODE 7", x.entryAt(7, 1, 0), -1);
-        Due.due("NODE -1", x.entryAt(-1, 1, 0), -1);
-        x.crash(0);
-        Due.due("of one DOWN", x.entryAt(0, 2, 3), 66);
+        Due.due("at 999", x.entryAt(0, 999, 3), -2);
+        for (int index : new int[] {0, -1, 1000, 9999, MAX, MIN}) {
+            Due.due("INDEX " + index, x.entryAt(0, index, 0), -1);
+        }
+        for (int what : new int[] {-1, 4, 5, MAX, MIN}) {
+            Due.due("what " + what, x.entryAt(0, 1, what), -1);
+            Due.due("what " + what + " of none", x.entryAt(0, 99, what), -1);
+        }
+        for (int n : NO_NODES) Due.due("NODE " + n, x.entryAt(n, 1, 0), -1);
+        x.ticks(2);
+        x.compact(0);
+        Due.due("BASE", x.nodeIs(0, 6), 3);
+        Due.due("LAST", x.nodeIs(0, 4), 4);
+        Due.due("at BASE", x.entryAt(0, 3, 0), -2);
+        Due.due("below BASE", x.entryAt(0, 1, 0), -2);
+        Due.due("above BASE", x.entryAt(0, 4, 0), 1);
+        x.crash(1);
+        Due.due("of one DOWN", x.entryAt(1, 2, 3), 66);
     }
 
     private static void promise17KeyOf() {
+        Due.says(17, "`int keyOf(int node, int key)`: A KEY (0 to 7) of an UP NODE; 10 + KEY: of its"
+                + " SNAPSHOT, also DOWN; -2: DOWN; NONE: no such ones.");
         TermLog x = Due.settled(7);
         for (int key = 0; key < 8; key++) x.write(0, key, 10 * key + 9);
         x.ticks(9);
         x.compact(1);
         x.write(0, 7, 1);
         x.ticks(6);
-        Due.due("KEY 0", x.keyOf(1, 0), 9);
-        Due.due("KEY 7", x.keyOf(1, 7), 1);
-        Due.due("KEY 7 of the SNAPSHOT", x.keyOf(1, 17), 79);
-        Due.due("KEY 0 of the SNAPSHOT", x.keyOf(1, 10), 9);
-        for (int key : new int[] {-1, 8, 9, 18, 99, Integer.MIN_VALUE, Integer.MAX_VALUE}) {
-            Due.due("KEY " + key, x.keyOf(1, key), -1);
+        for (int key = 0; key < 8; key++) {
+            Due.due("KEY " + key, x.keyOf(1, key), key == 7 ? 1 : 10 * key + 9);
+            Due.due("of the SNAPSHOT " + key, x.keyOf(1, 10 + key), 10 * key + 9);
         }
-        Due.due("NODE 7", x.keyOf(7, 0), -1);
-        Due.due("NODE -1", x.keyOf(-1, 10), -1);
+        int[] none = {-1, -2, 8, 9, 18, 19, 20, 99, MAX, MIN};
+        for (int key : none) Due.due("KEY " + key, x.keyOf(1, key), -1);
+        for (int n : NO_NODES) {
+            Due.due("NODE " + n, x.keyOf(n, 0), -1);
+            Due.due("NODE " + n + ", of the SNAPSHOT", x.keyOf(n, 10), -1);
+        }
         x.crash(1);
-        Due.due("DOWN", x.keyOf(1, 7), -2);
-        Due.due("DOWN, of the SNAPSHOT", x.keyOf(1, 17), 79);
-        Due.due("DOWN, KEY 8", x.keyOf(1, 8), -1);
+        for (int key = 0; key < 8; key++) {
+            Due.due("DOWN " + key, x.keyOf(1, key), -2);
+            Due.due("DOWN, of the SNAPSHOT " + key, x.keyOf(1, 10 + key), 10 * key + 9);
+        }
+        for (int key : none) Due.due("DOWN, KEY " + key, x.keyOf(1, key), -1);
     }
 
     private static void promise18About() {
+        Due.says(18, "`int about(int leader, int node, int what)`: Of a LEADER that is UP about a NODE, what"
+                + " 0 NEXT, 1 MATCH, 2 HEARD (of itself NEXT as told by LEADS, HEARD 0);");
         TermLog x = Due.ledByZero(7);
-        Due.due("NEXT", x.about(0, 1, 0), 1);
-        Due.due("NEXT of itself", x.about(0, 0, 0), 1);
-        Due.due("MATCH", x.about(0, 1, 1), 0);
-        Due.due("MATCH of itself", x.about(0, 0, 1), 1);
-        Due.due("HEARD", x.about(0, 1, 2), 0);
+        for (int n = 0; n < 7; n++) {
+            Due.due("NEXT of " + n, x.about(0, n, 0), 1);
+            Due.due("MATCH of " + n, x.about(0, n, 1), n == 0 ? 1 : 0);
+            Due.due("HEARD of " + n, x.about(0, n, 2), 0);
+        }
         x.ticks(2);
         Due.due("NEXT then", x.about(0, 1, 0), 2);
         Due.due("MATCH then", x.about(0, 1, 1), 1);
         Due.due("HEARD then", x.about(0, 1, 2), 1);
+        x.write(0, 0, 1);
+        x.ticks(6);
+        Due.due("NEXT of itself", x.about(0, 0, 0), 1);
+        Due.due("MATCH of itself", x.about(0, 0, 1), 2);
         Due.due("HEARD of itself", x.about(0, 0, 2), 0);
         Due.due("of no MEMBER", x.about(0, 6, 0), 1);
+
+        Due.says(18, "-2: it is no LEADER, DOWN; NONE: no such ones.");
         Due.due("a FOLLOWER", x.about(1, 0, 0), -2);
-        Due.due("what 3", x.about(0, 1, 3), -1);
-        Due.due("what -1", x.about(0, 1, -1), -1);
-        Due.due("NODE 7", x.about(0, 7, 0), -1);
-        Due.due("LEADER 7", x.about(7, 0, 0), -1);
-        Due.due("a FOLLOWER, what 3", x.about(1, 0, 3), -1);
+        Due.due("no MEMBER LEADS", x.about(6, 0, 2), -2);
+        for (int what : new int[] {-1, 3, 4, MAX, MIN}) {
+            Due.due("what " + what, x.about(0, 1, what), -1);
+            Due.due("a FOLLOWER, what " + what, x.about(1, 0, what), -1);
+        }
+        for (int n : NO_NODES) {
+            Due.due("NODE " + n, x.about(0, n, 0), -1);
+            Due.due("LEADER " + n, x.about(n, 0, 0), -1);
+            Due.due("of a FOLLOWER " + n, x.about(1, n, 0), -1);
+        }
         x.crash(0);
         Due.due("DOWN", x.about(0, 1, 0), -2);
-        hints();
-        snapshots();
-        snapshotsAmongEntries();
-    }
-
-    /** Where LOGS part: what is told back is what NEXT becomes, MATCH + 1 at least. */
-    private static void hints() {
-        TermLog x = Due.settled(7);
-        x.ticks(3);
-        x.crash(1);
-        for (int i = 0; i < 6; i++) x.write(0, 0, i);
-        x.ticks(6);
-        Due.law(x, "e4(f=0);e40(f=f)");
-        x.crash(0);
         x.comeUp(0);
-        x.comeUp(1);
-        x.ticks(x.till(200, 0));
-        Due.due("NEXT at first", x.about(0, 1, 0), 8);
-        x.ticks(2);
-        Due.due("NEXT behind a hint", x.about(0, 1, 0), 2);
-        Due.due("MATCH behind a hint", x.about(0, 1, 1), 0);
-        int sent = 0;
-        for (int i = 0; i < x.count(2); i++) {
-            if (x.message(i, 1) == 1 && x.message(i, 5) == 4) sent++;
-        }
-        Due.due("sent by the hint, and by the HEART", sent, 2);
-        x.ticks(2);
-        Due.due("NEXT behind four", x.about(0, 1, 0), 6);
-        x.ticks(2);
-        Due.due("NEXT behind all", x.about(0, 1, 0), 9);
-    }
-
-    private static void snapshots() {
-        TermLog x = Due.settled(7);
-        x.ticks(3);
-        x.crash(1);
-        x.write(0, 3, 30);
-        x.ticks(6);
-        x.compact(0);
-        Due.due("NEXT of 1", x.about(0, 1, 0), 2);
-        x.comeUp(1);
-        Due.tickTill(x, y -> y.message(0, 1) == 1 && y.message(0, 2) == 4);
-        Due.due("KIND 4 has no ENTRIES", x.message(0, 5), 0);
-        int held = x.count(3);
-        x.ticks(1);
-        Due.due("BASE of 1", x.nodeIs(1, 6), 2);
-        Due.due("LAST of 1", x.nodeIs(1, 4), 2);
-        Due.due("COMMIT of 1", x.nodeIs(1, 5), 2);
-        Due.due("KEY of 1", x.keyOf(1, 3), 30);
-        Due.due("KEY of its SNAPSHOT", x.keyOf(1, 13), 30);
-        Due.due("TERM of LAST", x.nodeIs(1, 13), 1);
-        Due.due("nothing SEEN HELD", x.count(3), held);
-        x.ticks(1);
-        Due.due("MATCH of 1", x.about(0, 1, 1), 2);
-        Due.due("NEXT of 1 then", x.about(0, 1, 0), 3);
-    }
-
-    /** Of a SNAPSHOT that comes, what a NODE has behind its INDEX stays if it has that one. */
-    private static void snapshotsAmongEntries() {
-        TermLog x = Due.settled(7);
-        Due.tickTill(x, y -> y.count(2) == 0);
-        Due.law(x, "e40(f=f);x(f=1&k=3)");
-        x.write(0, 0, 2);
-        x.write(0, 0, 3);
-        Due.law(x, "e40(f=f);x(f=1&k=3);x(t=2)");
-        x.write(0, 0, 4);
-        x.write(0, 0, 5);
-        x.ticks(2);
-        Due.due("1 has four more", x.nodeIs(1, 4), 5);
-        Due.due("1 knows of none HELD", x.nodeIs(1, 5), 1);
-        Due.due("0 knows of two", x.nodeIs(0, 5), 3);
-        Due.due("0 knows not of 1", x.about(0, 1, 0), 2);
-        x.compact(0);
-        Due.tickTill(x, y -> y.nodeIs(1, 6) == 3);
-        Due.due("what is behind it stays", x.nodeIs(1, 4), 5);
-        Due.due("an ENTRY behind it", x.entryAt(1, 4, 3), 4);
-        Due.due("the ENTRY at it goes", x.entryAt(1, 3, 0), -2);
-        Due.due("COMMIT", x.nodeIs(1, 5), 3);
-        Due.due("KEY", x.keyOf(1, 0), 3);
-        // one with another TERM there: all go
-        x = Due.settled(7);
-        Due.tickTill(x, y -> y.count(2) == 0);
-        x.cut(0, 1, true);
-        x.cut(0, 2, true);
-        for (int i = 2; i < 8; i++) x.write(0, 0, i);
-        Due.law(x, "e4(f=1);e40(f=f)");
-        x.crash(1);
-        x.comeUp(1);
-        Due.tickTill(x, y -> y.leaderNow() == 1);
-        x.write(1, 1, 11);
-        Due.tickTill(x, y -> y.nodeIs(1, 5) == 3);
-        x.compact(1);
-        Due.due("LAST of 0", x.nodeIs(0, 4), 7);
-        x.ticks(1);
-        x.cut(0, 1, false);
-        Due.tickTill(x, y -> y.nodeIs(0, 6) == 3);
-        Due.due("all go", x.nodeIs(0, 4), 3);
-        Due.due("TERM of LAST", x.nodeIs(0, 13), 2);
-        Due.due("KEY 0", x.keyOf(0, 0), 0);
-        Due.due("KEY 1", x.keyOf(0, 1), 11);
+        Due.due("UP again", x.about(0, 1, 0), -2);
     }
 
     private static void promise19Message() {
+        Due.says(19, "`int message(int i, int what)`: A MESSAGE on its way i (0 on, as SENT), what 0 from, 1"
+                + " to, 2 KIND, 3 TERM, 4 when it is due, 5 how many ENTRIES;");
         TermLog x = Due.ledByZero(7);
         int tick = x.count(0);
         int[][] all = {{0, 1, 2, 1, tick + 1, 1}, {0, 2, 2, 1, tick + 1, 1}};
@@ -817,47 +784,65 @@ public final class PromiseTest {
                 Due.due("MESSAGE " + i, x.message(i, what), all[i][what]);
             }
         }
-        Due.due("2", x.message(2, 0), -4);
-        Due.due("160", x.message(160, 5), -4);
-        Due.due("-1", x.message(-1, 0), -1);
-        Due.due("what 6", x.message(0, 6), -1);
-        Due.due("what -1", x.message(0, -1), -1);
-        Due.due("2, what 6", x.message(2, 6), -1);
-        // in the order SENT, whenever they are due
         Due.law(x, "d5(t=1)");
         x.write(0, 0, 0);
         Due.law(x, "d0(t=1)");
         x.write(0, 0, 1);
-        Due.due("sent late", x.message(2, 4), tick + 6);
+        Due.due("as SENT, whenever due", x.message(2, 4), tick + 6);
         Due.due("behind it", x.message(4, 4), tick + 1);
+        Due.due("two ENTRIES", x.message(2, 5), 2);
+        Due.due("three ENTRIES", x.message(5, 5), 3);
         x.ticks(1);
         Due.due("late, first now", x.message(0, 4), tick + 6);
         Due.due("the answer behind it", x.message(1, 2), 3);
+        Due.due("no ENTRIES", x.message(1, 5), 0);
         x.ticks(4);
         Due.due("late yet", x.message(0, 4), tick + 6);
         x.ticks(1);
         Due.due("handed over", x.message(0, 4) != tick + 6, true);
+
+        Due.says(19, "-4: there are not so many; NONE: no such ones.");
+        x = Due.ledByZero(7);
+        Due.due("1 of 2", x.message(1, 0), 0);
+        for (int i : new int[] {2, 3, 159, 160, 161, MAX}) Due.due("i " + i, x.message(i, 0), -4);
+        for (int i : new int[] {-1, -2, MIN}) Due.due("i " + i, x.message(i, 0), -1);
+        for (int what : new int[] {-1, 6, 7, MAX, MIN}) {
+            Due.due("what " + what, x.message(0, what), -1);
+            Due.due("what " + what + " of none", x.message(2, what), -1);
+        }
+        Due.quiet(x);
+        Due.due("none at all", x.message(0, 0), -4);
     }
 
     private static void promise20LeaderNow() {
+        Due.says(20, "`int leaderNow()`: LEADER NOW: the UP LEADER of the greatest TERM (of like ones the"
+                + " lowest); -2: none.");
         TermLog x = new TermLog();
         Due.due("none", x.leaderNow(), -2);
         x = Due.settled(31);
         Due.due("0", x.leaderNow(), 0);
         for (int n = 1; n < 5; n++) x.cut(0, n, true);
-        Due.law(x, "e4(f=3);e40(f=f)");
-        x.crash(3);
-        x.comeUp(3);
-        x.ticks(20);
-        Due.due("0 leads yet", x.nodeIs(0, 3), 2);
+        Due.makeLead(x, 3);
+        Due.due("0 LEADS yet", x.nodeIs(0, 3), 2);
         Due.due("3 of a greater TERM", x.leaderNow(), 3);
         x.crash(3);
         Due.due("0 again", x.leaderNow(), 0);
         x.crash(0);
         Due.due("none again", x.leaderNow(), -2);
+        // a greater TERM of a lesser NODE; like ones can't be but from inside
+        x = Due.settled(7);
+        x.cut(0, 1, true);
+        x.cut(0, 2, true);
+        Due.makeLead(x, 2);
+        Inside.set(new Inside(x).node(0), "term", 2);
+        Due.due("of like ones the lowest", x.leaderNow(), 0);
+        Inside.set(new Inside(x).node(0), "term", 3);
+        Due.due("of a greater TERM the lower one", x.leaderNow(), 0);
     }
 
     private static void promise21HeldAt() {
+        Due.says(21, "`int heldAt(int index, int what)`: HELD FOR SURE at an INDEX (1 to 9999), what 0 to 3"
+                + " as entryAt(); -2: nothing yet; NONE: no such ones.");
         TermLog x = Due.ledByZero(7);
         Due.due("nothing yet", x.heldAt(1, 0), -2);
         x.ticks(6);
@@ -870,18 +855,27 @@ public final class PromiseTest {
                 Due.due("HELD", x.heldAt(i + 1, what), all[i][what]);
             }
         }
-        Due.due("5", x.heldAt(5, 0), -2);
-        Due.due("9999", x.heldAt(9999, 0), -2);
-        Due.due("10000", x.heldAt(10000, 0), -1);
-        Due.due("0", x.heldAt(0, 0), -1);
-        Due.due("what 4", x.heldAt(1, 4), -1);
-        Due.due("what -1", x.heldAt(1, -1), -1);
+        for (int index : new int[] {5, 998, 999, 1000, 9998, 9999}) {
+            Due.due("INDEX " + index, x.heldAt(index, 0), -2);
+            Due.due("INDEX " + index + ", what 4", x.heldAt(index, 4), -1);
+        }
+        for (int index : new int[] {0, -1, 10000, MAX, MIN}) {
+            Due.due("INDEX " + index, x.heldAt(index, 0), -1);
+        }
+        for (int what : new int[] {-1, 4, 5, MAX, MIN}) {
+            Due.due("what " + what, x.heldAt(1, what), -1);
+        }
         x.compact(0);
         for (int n = 0; n < 7; n++) x.crash(n);
-        Due.due("HELD whoever has it", x.heldAt(2, 3), 40);
+        Due.due("whoever has it", x.heldAt(2, 3), 40);
+        x = NodesTest.far(999);
+        Due.due("at 999", x.heldAt(999, 3), 1);
+        Due.due("at 1000", x.heldAt(1000, 3), -2);
     }
 
     private static void promise22ReadIs() {
+        Due.says(22, "`int readIs(int i, int what)`: A READ, what 0 open 0, answered 1, lost 2, 1 its value"
+                + " (not answered: -2), 2 its NODE, 3 its KEY; NONE: no such ones.");
         TermLog x = Due.settled(7);
         x.write(0, 5, 55);
         x.ask(0, 5);
@@ -894,85 +888,51 @@ public final class PromiseTest {
         x.crash(0);
         int[] lost = {2, -2, 0, 6};
         for (int what = 0; what < 4; what++) Due.due("lost", x.readIs(1, what), lost[what]);
-        Due.due("2", x.readIs(2, 0), -1);
-        Due.due("-1", x.readIs(-1, 0), -1);
-        Due.due("what 4", x.readIs(0, 4), -1);
-        Due.due("what -1", x.readIs(0, -1), -1);
+        for (int i : new int[] {-1, 2, 15, 16, MAX, MIN}) Due.due("READ " + i, x.readIs(i, 0), -1);
+        for (int what : new int[] {-1, 4, 5, MAX, MIN}) {
+            Due.due("what " + what, x.readIs(0, what), -1);
+        }
+        Due.due("of no READS", new TermLog().readIs(0, 0), -1);
     }
 
     private static void promise23Broken() {
+        Due.says(23, "`int broken(int what)`:");
         TermLog x = Due.settled(127);
         for (int what = 0; what < 3; what++) Due.due("broken", x.broken(what), 0);
-        Due.due("3", x.broken(3), -1);
-        Due.due("-1", x.broken(-1), -1);
-        Due.due("MAX", x.broken(Integer.MAX_VALUE), -1);
-        // unlike ENTRIES of unlike TERMS at the same INDEX are MATCHED all the same
-        x.crash(1);
-        for (int n = 1; n < 7; n++) x.cut(0, n, true);
-        x.write(0, 0, 1);
-        Due.law(x, "e4(f=2);e40(f=f)");
-        x.crash(2);
-        x.comeUp(2);
-        x.ticks(30);
-        Due.due("unlike", x.entryAt(0, 2, 0) != x.entryAt(2, 2, 0), true);
-        for (int what = 0; what < 3; what++) Due.due("not broken", x.broken(what), 0);
+
+        Due.says(23, "NONE: no such what.");
+        for (int what : new int[] {-1, 3, 4, MAX, MIN}) Due.due("what " + what, x.broken(what), -1);
     }
 
     private static void promise24CouldWin() {
+        Due.says(24, "`int couldWin(int node, int what)`: COULD WIN, what 0 it could (1, 0), 1 who grants"
+                + " (bits);");
         TermLog x = Due.settled(31);
-        Due.due("0", x.couldWin(0, 1), 31);
-        Due.due("all grant", x.couldWin(1, 1), 31);
-        x.cut(1, 2, true);
-        x.crash(3);
-        Due.due("cut, DOWN", x.couldWin(1, 1), 19);
-        Due.due("three of five", x.couldWin(1, 0), 1);
-        x.cut(1, 4, true);
-        Due.due("two of five", x.couldWin(1, 0), 0);
-        Due.due("who", x.couldWin(1, 1), 3);
-        Due.due("no MEMBER", x.couldWin(5, 0), -2);
-        Due.due("no MEMBER, who", x.couldWin(5, 1), -2);
-        Due.due("DOWN", x.couldWin(3, 0), -2);
-        Due.due("what 2", x.couldWin(0, 2), -1);
-        Due.due("what -1", x.couldWin(0, -1), -1);
-        Due.due("NODE 7", x.couldWin(7, 0), -1);
-        Due.due("DOWN, what 2", x.couldWin(3, 2), -1);
-        // LOGS behind and ahead
-        x = Due.settled(7);
-        x.cut(0, 2, true);
-        x.write(0, 0, 0);
-        x.ticks(2);
-        Due.due("of 2 nobody is behind", x.couldWin(2, 1), 4);
-        Due.due("of 1 all are", x.couldWin(1, 1), 7);
-        Due.due("of 0, but for the link", x.couldWin(0, 1), 3);
-        // a TERM above, the same TERM with a VOTE given, a lower one with a VOTE
-        x = Due.settled(7);
-        x.ticks(6);
-        x.cut(2, 0, true);
-        x.cut(2, 1, true);
-        Due.law(x, "e4(f=2);e40(f=f)");
+        for (int n = 0; n < 5; n++) {
+            Due.due("it could " + n, x.couldWin(n, 0), 1);
+            Due.due("who grants " + n, x.couldWin(n, 1), 31);
+        }
         x.crash(2);
-        x.comeUp(2);
-        Due.tickTill(x, y -> y.nodeIs(2, 1) >= 2);
-        x.cut(2, 0, false);
-        x.cut(2, 1, false);
-        Due.due("2 has VOTE in TERM 2", x.couldWin(1, 1), 3);
-        Due.due("2 in TERM 3", x.couldWin(2, 1), 7);
-        x.cut(2, 0, true);
-        x.cut(2, 1, true);
-        Due.tickTill(x, y -> y.nodeIs(2, 1) >= 3);
-        x.cut(2, 0, false);
-        x.cut(2, 1, false);
-        Due.due("2 is above TERM 2", x.couldWin(0, 1), 3);
-        // a joint CONFIG
-        x = Due.settled(7);
-        x.change(0, 56);
-        Due.due("old and new ones", x.couldWin(0, 1), 63);
         x.crash(3);
+        Due.due("three of five", x.couldWin(0, 0) * 100 + x.couldWin(0, 1), 119);
         x.crash(4);
-        Due.due("not of the new ones", x.couldWin(0, 0), 0);
+        Due.due("two of five", x.couldWin(0, 0) * 100 + x.couldWin(0, 1), 3);
+
+        Due.says(24, "-2: it is DOWN, no MEMBER; NONE: no such ones.");
+        Due.due("DOWN", x.couldWin(3, 0), -2);
+        Due.due("DOWN, who", x.couldWin(3, 1), -2);
+        Due.due("no MEMBER", x.couldWin(5, 0), -2);
+        Due.due("no MEMBER, who", x.couldWin(6, 1), -2);
+        for (int what : new int[] {-1, 2, 3, MAX, MIN}) {
+            Due.due("what " + what, x.couldWin(0, what), -1);
+            Due.due("DOWN, what " + what, x.couldWin(3, what), -1);
+        }
+        for (int n : NO_NODES) Due.due("NODE " + n, x.couldWin(n, 0), -1);
     }
 
     private static void promise25Majority() {
+        Due.says(25, "`int majority(int node, int some)`: Whether some NODES (bits 0 to 127) are a MAJORITY"
+                + " of a NODE's CONFIG: 1, 0; NONE: no such ones.");
         TermLog x = new TermLog();
         x.found(31);
         Due.due("three of five", x.majority(0, 7), 1);
@@ -980,40 +940,36 @@ public final class PromiseTest {
         Due.due("two and others", x.majority(0, 99), 0);
         Due.due("none", x.majority(0, 0), 0);
         Due.due("all", x.majority(6, 127), 1);
-        x.found(15);
-        Due.due("two of four", x.majority(0, 3), 0);
-        Due.due("three of four", x.majority(0, 11), 1);
-        Due.due("128", x.majority(0, 128), -1);
-        Due.due("-1", x.majority(0, -1), -1);
-        Due.due("NODE 7", x.majority(7, 1), -1);
-        Due.due("NODE -1", x.majority(-1, 1), -1);
+        for (int some : new int[] {-1, 128, 129, 255, MAX, MIN}) {
+            Due.due("bits " + some, x.majority(0, some), -1);
+        }
+        for (int n : NO_NODES) Due.due("NODE " + n, x.majority(n, 1), -1);
         x = Due.settled(7);
         x.change(0, 56);
-        Due.due("old ones alone", x.majority(0, 7), 0);
-        Due.due("new ones alone", x.majority(0, 56), 0);
         Due.due("two of each", x.majority(0, 27), 1);
+        Due.due("old ones alone", x.majority(0, 7), 0);
         Due.due("of 1, that does not know", x.majority(1, 7), 1);
         x.crash(1);
         Due.due("of one DOWN", x.majority(1, 7), 1);
     }
 
     private static void promise26Till() {
+        Due.says(26, "`int till(int n, int what)`: Behind how many of n TICKS (1 to 200) there is a LEADER"
+                + " NOW first (what 0), an INDEX more is HELD FOR SURE first (what 1),");
         TermLog x = new TermLog();
-        Due.due("a LEADER", x.till(200, 0), 12);
-        Due.due("a LEADER in twelve", x.till(12, 0), 12);
-        Due.due("none in eleven", x.till(11, 0), -2);
-        Due.due("HELD", x.till(200, 1), 14);
-        Due.due("all have nothing", x.till(1, 2), 0);
-        Due.due("nothing is changed", x.count(0), 0);
+        Due.due("a LEADER in 200", x.till(200, 0), 12);
+        Due.due("a LEADER in 12", x.till(12, 0), 12);
+        Due.due("HELD in 200", x.till(200, 1), 14);
+        Due.due("HELD in 14", x.till(14, 1), 14);
+        Due.due("THE TICK", x.count(0), 0);
         x.ticks(12);
-        Due.due("a LEADER now", x.till(1, 0), 0);
-        Due.due("an INDEX more", x.till(2, 1), 2);
-        Due.due("none in one", x.till(1, 1), -2);
-        x.ticks(2);
-        Due.due("no INDEX more", x.till(200, 1), -2);
-        Due.due("no MEMBERS never have it", x.till(200, 2), -2);
+        Due.due("an INDEX more in 2", x.till(2, 1), 2);
+
+        Due.says(26, "all UP NODES have COMMIT no less than the greatest INDEX HELD FOR SURE (what 2; none is"
+                + " UP: so, too);");
         x = Due.settled(7);
         for (int n = 3; n < 7; n++) x.crash(n);
+        Due.quiet(x);
         Due.due("all have it", x.till(20, 2), 0);
         x.write(0, 0, 0);
         Due.due("all have what is HELD", x.till(20, 2), 0);
@@ -1021,7 +977,7 @@ public final class PromiseTest {
         Due.due("1 knows not yet", x.nodeIs(1, 5), 1);
         int till = x.till(20, 2);
         Due.due("in some TICKS", till > 0, true);
-        x.ticks(till - 1);
+        if (till > 1) x.ticks(till - 1);
         Due.due("not before", Math.min(x.nodeIs(1, 5), x.nodeIs(2, 5)), 1);
         x.ticks(1);
         Due.due("then", Math.min(x.nodeIs(1, 5), x.nodeIs(2, 5)), 2);
@@ -1033,14 +989,28 @@ public final class PromiseTest {
         Due.due("of UP ones alone", x.till(1, 2), 0);
         x.crash(0);
         Due.due("none is UP", x.till(1, 2), 0);
+        Due.due("none HELD yet: all have it", new TermLog().till(1, 2), 0);
+        x = Due.settled(7);
+        Due.due("no MEMBERS never have it", x.till(200, 2), -2);
+
+        Due.says(26, "0: it is so now; -2: not in these; NONE: no such ones.");
+        Due.due("a LEADER now", x.till(1, 0), 0);
+        Due.due("no INDEX more", x.till(200, 1), -2);
+        x = new TermLog();
+        Due.due("no LEADER in 11", x.till(11, 0), -2);
+        Due.due("none HELD in 13", x.till(13, 1), -2);
+        for (int what : new int[] {-1, 3, 4, MAX, MIN}) {
+            Due.due("what " + what, x.till(1, what), -1);
+        }
+        for (int n : NO_COUNTS) {
+            for (int what = 0; what < 3; what++) Due.due("till(" + n + ")", x.till(n, what), -1);
+        }
+        for (int n = 0; n < 7; n++) x.crash(n);
         Due.due("no LEADER ever", x.till(200, 0), -2);
-        Due.due("what 3", x.till(1, 3), -1);
-        Due.due("what -1", x.till(1, -1), -1);
-        Due.due("0 TICKS", x.till(0, 0), -1);
-        Due.due("201 TICKS", x.till(201, 0), -1);
     }
 
     private static void promise27Seed() {
+        Due.says(27, "`boolean seed(int x)`: THE SEED (0 to 65535; X, too): true; false: no such number.");
         TermLog x = new TermLog();
         Due.due("0", x.seed(0), true);
         Due.due("X", x.count(6), 0);
@@ -1049,143 +1019,130 @@ public final class PromiseTest {
         Due.due("X behind a DRAW", x.count(6), 13849);
         Due.due("TIMER", x.nodeIs(0, 7), 8 + 9);
         Due.due("65535", x.seed(65535), true);
-        Due.due("X", x.count(6), 65535);
+        Due.due("X is 65535", x.count(6), 65535);
         x.found(7);
         Due.due("seven DRAWS", x.count(6), Due.xBehind(65535, 7));
-        Due.due("65536", x.seed(65536), false);
-        Due.due("-1", x.seed(-1), false);
+        for (int no : new int[] {65536, 65537, -1, MAX, MIN}) {
+            Due.due("seed(" + no + ")", x.seed(no), false);
+        }
         Due.due("X stays", x.count(6), Due.xBehind(65535, 7));
     }
 
     private static void promise28And29KeepUndo() {
-        TermLog x = Due.settled(31);
-        Due.due("none KEPT", x.undo(), false);
-        x.crash(4);
-        x.cut(0, 3, true);
-        x.write(0, 1, 11);
-        x.ask(0, 1);
-        x.feed(0, 0, 0, 0, 0);
-        Due.due("keep", x.keep(), x.count(0));
-        String seen = Due.seen(x);
-        x = Due.settled(31);
-        x.crash(4);
-        x.cut(0, 3, true);
-        x.write(0, 1, 11);
-        x.ask(0, 1);
-        x.keep();
-        x.ticks(20);
-        x.write(0, 1, 12);
-        x.change(0, 7);
-        x.ticks(20);
-        x.compact(0);
-        x.comeUp(4);
-        x.cut(0, 3, false);
-        x.crash(1);
-        x.seed(77);
-        x.feed(0, 0, 0, 0, 0);
-        Due.due("undo", x.undo(), true);
-        Due.due("as it was KEPT", Due.seen(x), seen);
-        x = Due.settled(7);
-        int kept = x.keep();
-        x.ticks(5);
-        x.found(127);
-        Due.due("undo behind found", x.undo(), true);
-        Due.due("THE TICK", x.count(0), kept);
-        x.ticks(5);
-        Due.due("undo again", x.undo(), true);
-        Due.due("THE TICK again", x.count(0), kept);
-        keptReads();
-        x.ticks(5);
-        Due.due("keep again", x.keep(), kept + 5);
-        x.ticks(5);
-        x.undo();
-        Due.due("as it was KEPT last", x.count(0), kept + 5);
-    }
+        Due.says(28, "`int keep()`: KEPT: THE TICK.");
+        TermLog x = new TermLog();
+        Due.due("at 0", x.keep(), 0);
+        x.ticks(7);
+        Due.due("at 7", x.keep(), 7);
 
-    private static void keptReads() {
-        TermLog x = Due.settled(7);
-        x.write(0, 5, 50);
-        x.write(0, 6, 60);
+        Due.says(29, "`boolean undo()`: UNDONE: true; false: none was KEPT.");
         x.ticks(3);
-        x.ask(0, 5);
-        x.ticks(2);
-        x.ask(0, 6);
-        x.keep();
-        x.found(1);
-        Due.tickTill(x, y -> y.leaderNow() == 0);
-        x.ask(0, 1);
-        x.ask(0, 2);
-        Due.due("another READ", x.readIs(0, 3), 1);
-        x.undo();
-        int[][] all = {{1, 50, 0, 5}, {0, -2, 0, 6}};
-        for (int i = 0; i < 2; i++) {
-            for (int what = 0; what < 4; what++) {
-                Due.due("a KEPT READ", x.readIs(i, what), all[i][what]);
-            }
-        }
-        x.ticks(1);
-        Due.due("open by its ROUND", x.readIs(1, 0), 0);
-        x.ticks(1);
-        Due.due("answered by its KEY", x.readIs(1, 1), 60);
+        Due.due("undo", x.undo(), true);
+        Due.due("THE TICK", x.count(0), 7);
+        Due.due("undo at once again", x.undo(), true);
+        x = new TermLog();
+        x.ticks(5);
+        Due.due("none KEPT", x.undo(), false);
+        Due.due("THE TICK stays", x.count(0), 5);
+        x.found(3);
+        Due.due("none KEPT yet", x.undo(), false);
     }
 
     private static void promise30Check() {
-        TermLog x = Due.settled(7);
-        for (int key = 0; key < 8; key++) x.write(0, key, 10 + key);
-        Due.tickTill(x, y -> y.nodeIs(0, 5) >= 9);
-        check(x, 8, -1, 10, 11, 12, 13, 14, 15, 16, 17);
-        check(x, 8, 7, 10, 11, 12, 13, 14, 15, 16, 18);
-        check(x, 8, 2, 10, 11, 0, 13, 0, 15, 16, 17);
-        check(x, 2, -1, 10, 11, 0, 0, 0, 0, 0, 0);
-        check(x, 1, 0, 11, 11, 0, 0, 0, 0, 0, 0);
-        check(x, 0, -1, 0, 0, 0, 0, 0, 0, 0, 0);
-        Due.due("1 byte of none", x.check(1), -2);
+        Due.says(30, "`int check(int n)`: CHECK by the first n bytes of the tape (0 to 8; empty then): NONE:"
+                + " right; else the first that is not so;");
+        TermLog x = new TermLog();
+        x.feed(0, 1, 0, 0, 0);
+        Due.due("check(7): the eighth is not asked", x.check(7), -1);
+        Due.due("empty then", x.count(5), 0);
+        x.feed(0, 1, 0, 0, 0);
+        Due.due("check(8)", x.check(8), 7);
+        Due.due("empty then, wrong", x.count(5), 0);
+        x.feed(1 << 24, 1, 0, 0, 0);
+        Due.due("the first that is not so", x.check(8), 0);
+        x.feed(-1, -1, 0, 0, 0);
+        Due.due("check(0)", x.check(0), -1);
+        Due.due("empty then, of none asked", x.count(5), 0);
         Due.due("0 bytes of none", x.check(0), -1);
-        x.feed(0, 0, 0, 0, 0);
-        Due.due("9", x.check(9), -2);
-        Due.due("-1", x.check(-1), -2);
-        Due.due("the tape stays", x.count(5), 20);
-        x.check(0);
-        // of like COMMITS any has the same; of the UP ones the greatest
-        x.ticks(9);
-        x.crash(1);
-        x.crash(2);
-        x.write(0, 0, 99);
-        check(x, 1, -1, 10, 0, 0, 0, 0, 0, 0, 0);
-        x.crash(0);
-        check(x, 1, -1, 0, 0, 0, 0, 0, 0, 0, 0);
-        for (int n = 3; n < 7; n++) x.crash(n);
-        check(x, 1, 0, 10, 0, 0, 0, 0, 0, 0, 0);
-        check(x, 8, -1, 255, 255, 255, 255, 255, 255, 255, 255);
-        check(x, 8, 6, 255, 255, 255, 255, 255, 255, 254, 255);
-    }
 
-    private static void check(TermLog x, int n, int want, int... keys) {
-        int a = keys[0] << 24 | keys[1] << 16 | keys[2] << 8 | keys[3];
-        int b = keys[4] << 24 | keys[5] << 16 | keys[6] << 8 | keys[7];
-        x.feed(a, b, 0, 0, 0);
-        Due.due("check(" + n + ")", x.check(n), want);
-        Due.due("check(" + n + "): the tape", x.count(5), 0);
+        Due.says(30, "-2: no such n, it has not so many (the tape stays).");
+        Due.due("1 byte of none", x.check(1), -2);
+        Due.due("8 bytes of none", x.check(8), -2);
+        x.feed(0, 0, 0, 0, 0);
+        for (int n : new int[] {-1, 9, 10, 20, 21, MAX, MIN}) {
+            Due.due("check(" + n + ")", x.check(n), -2);
+            Due.due("the tape stays", x.count(5), 20);
+        }
     }
 
     private static void promise31Count() {
+        Due.says(31, "`int count(int what)`: 0 THE TICK, 1 UP ones (bits), 2 MESSAGES on their way, 3 the"
+                + " greatest INDEX HELD FOR SURE, 4 RULES, 5 bytes of the tape, 6 X, 7 READS asked,");
         TermLog x = Due.settled(31);
+        int tick = x.count(0);
+        Due.quiet(x);
+        x.ticks(2);
+        Due.due("THE TICK", x.count(0) > tick, true);
+        Due.quiet(x);
         x.write(0, 0, 0);
         x.ask(0, 0);
         x.crash(6);
         x.cut(1, 2, true);
         x.cut(5, 6, true);
         x.feed(1, 1, 1, 1, 1);
-        int[] all = {x.count(0), 63, x.count(2), 1, 2, 20, x.count(6), 1, 0, 2};
-        for (int what = 0; what < 10; what++) Due.due("count", x.count(what), all[what]);
-        for (int what : new int[] {-1, 10, 11, Integer.MAX_VALUE, Integer.MIN_VALUE}) {
+        x.seed(4321);
+        int[] all = {x.count(0), 63, 8, 1, 2, 20, 4321, 1, 0, 2};
+        for (int what = 0; what < 10; what++) Due.due("count " + what, x.count(what), all[what]);
+        x.ticks(2);
+        Due.due("HELD", x.count(3), 2);
+        Due.due("none HELD", new TermLog().count(3), 0);
+
+        Due.says(31, "9 links cut. NONE for others.");
+        Due.due("two", x.count(9), 2);
+        x.cut(2, 1, false);
+        Due.due("one", x.count(9), 1);
+        for (int what : new int[] {-1, 10, 11, MAX, MIN}) {
             Due.due("count " + what, x.count(what), -1);
         }
+        lostMessages();
+    }
+
+    /** Five LEADERS, each for itself, of which each loses six MESSAGES every third TICK. */
+    private static void lostMessages() {
+        Due.says(31, "8 lost MESSAGES so far (since FOUNDED; 99999 at most),");
+        TermLog x = Due.ledByZero(127);
+        for (int n = 1; n <= 3; n++) leadWithout(x, n);
+        x.change(3, 120);
+        x.ticks(12);
+        Due.due("3 with 4, 5, 6", x.nodeIs(3, 8) + x.nodeIs(3, 9), 120);
+        Due.law(x, "e40(f=f);x(f=f)");
+        Due.due("3 and all, but none hears", x.change(3, 127) > 0, true);
+        leadWithout(x, 4);
+        x.ticks(6);
+        Due.law(x, "e4(f=f);x(f=f)");
+        Due.due("4 and all, but none hears", x.change(4, 127) > 0, true);
+        for (int n = 0; n < 5; n++) Due.due("a LEADER", x.nodeIs(n, 3), 2);
+        while (x.count(8) < 97000 && x.count(0) < 9700) x.ticks(200);
+        while (x.count(8) < 99700 && x.count(0) < 9900) x.ticks(20);
+        while (x.count(8) < 99970 && x.count(0) < 9900) x.ticks(1);
         int lost = x.count(8);
-        x.crash(1);
-        x.ticks(1);
-        Due.due("lost MESSAGES", x.count(8) >= lost + 2, true);
-        x.ticks(5);
-        Due.due("HELD", x.count(3), 2);
+        Due.due("not yet 99999", lost >= 99970 && lost < 99998, true);
+        Due.law(x, "e40(f=f);x(t=1)");
+        while (lost < 100003) {
+            x.write(0, 0, 0);
+            lost++;
+            Due.due("one more", x.count(8), Math.min(lost, 99999));
+        }
+        x.found(1);
+        Due.due("none since FOUNDED", x.count(8), 0);
+    }
+
+    /** A NODE LEADS, while those below it neither hear nor are heard. */
+    private static void leadWithout(TermLog x, int n) {
+        Due.law(x, "e4(f=" + n + ");e40(f=f);x(f<" + n + "|t<" + n + ")");
+        x.crash(n);
+        x.comeUp(n);
+        x.ticks(20);
+        Due.due("LEADER NOW", x.leaderNow(), n);
     }
 }
