@@ -857,8 +857,8 @@ public final class TermLog {
         final int[] held = new int[MOST_INDEX + 1];
         int heldTop;
         int heldCount;
-        /** By TERM: the NODE that led it and one more, 0: none did. */
-        final int[] leaderOf = new int[MOST_TERM + 1];
+        /** By TERM: the NODES that have led it (bits). */
+        final int[] ledBy = new int[MOST_TERM + 1];
         /** By NODE: those to whom the link is cut. */
         final int[] cutFrom = new int[NODES];
         int tick;
@@ -885,7 +885,7 @@ public final class TermLog {
             Arrays.fill(held, 0);
             heldTop = 0;
             heldCount = 0;
-            Arrays.fill(leaderOf, 0);
+            Arrays.fill(ledBy, 0);
             Arrays.fill(cutFrom, 0);
             tick = 0;
             brokenCount = 0;
@@ -1159,9 +1159,9 @@ public final class TermLog {
         private void crown(Node node) {
             node.becomeLeader();
             if (node.term < 0 || node.term > MOST_TERM) return;
-            int before = leaderOf[node.term];
-            if (before != 0 && before != node.number + 1) brokenCount++;
-            if (before == 0) leaderOf[node.term] = node.number + 1;
+            int itself = 1 << node.number;
+            if ((ledBy[node.term] & ~itself) != 0) brokenCount++;
+            ledBy[node.term] |= itself;
         }
 
         void goDown(Node node) {
@@ -1379,7 +1379,7 @@ public final class TermLog {
             System.arraycopy(other.held, 0, held, 0, MOST_INDEX + 1);
             heldTop = other.heldTop;
             heldCount = other.heldCount;
-            System.arraycopy(other.leaderOf, 0, leaderOf, 0, MOST_TERM + 1);
+            System.arraycopy(other.ledBy, 0, ledBy, 0, MOST_TERM + 1);
             System.arraycopy(other.cutFrom, 0, cutFrom, 0, NODES);
             tick = other.tick;
             x = other.x;

@@ -10,6 +10,7 @@ public final class BrokenTest {
         atCommitAndAboveIt();
         anotherIsHeld();
         anotherLeader();
+        hintOfBase();
         readBelow();
         matched();
         matchedByTerm();
@@ -92,14 +93,55 @@ public final class BrokenTest {
     private static void anotherLeader() {
         Due.says(0, "A LEADER of a TERM that has had another LEADER: a promise is BROKEN.");
         TermLog x = Due.settled(7);
-        Inside.set(new Inside(x).world(), "leaderOf", 2, 1 + 4);
         Due.makeLead(x, 0);
-        Due.due("another", x.broken(0), 1);
-        x = Due.settled(7);
-        Inside.set(new Inside(x).world(), "leaderOf", 2, 1 + 0);
-        Due.makeLead(x, 0);
-        Due.due("itself", x.broken(0), 0);
-        Due.due("it LEADS", x.leaderNow(), 0);
+        leadOnce(x, 0, 0);
+        leadOnce(x, 1, 1);
+        leadOnce(x, 1, 2);
+        leadOnce(x, 0, 3);
+        x.keep();
+        x.found(7);
+        Due.due("nothing BROKEN since FOUNDED", x.broken(0), 0);
+        Due.makeLead(x, 2);
+        Due.due("nor by a TERM that was led before", x.broken(0), 0);
+        x.undo();
+        Due.due("KEPT", x.broken(0), 3);
+    }
+
+    /** All forget TERM 2 and their VOTES, and a NODE LEADS it once more. */
+    private static void leadOnce(TermLog x, int n, int broken) {
+        for (int k = 0; k < 3; k++) x.crash(k);
+        Due.quiet(x);
+        for (int k = 0; k < 3; k++) {
+            x.comeUp(k);
+            Inside.set(new Inside(x).node(k), "term", 1);
+            Inside.set(new Inside(x).node(k), "vote", -2);
+            Inside.set(new Inside(x).node(k), "logSize", 1);
+        }
+        Due.makeLead(x, n);
+        Due.due("it LEADS TERM 2", x.nodeIs(n, 1), 2);
+        Due.due("BROKEN by " + n, x.broken(0), broken);
+    }
+
+    /** PREV is BASE, and the TERM there is another one. */
+    private static void hintOfBase() {
+        Due.says(0, "(above BASE; of BASE: BASE, 1 at least), ROUND.");
+        for (int base = 0; base < 2; base++) {
+            TermLog x = fourHeld();
+            if (base > 0) x.compact(1);
+            Inside in = new Inside(x);
+            Inside.set(Inside.get(in.node(1), "snapshot"), "term", 9);
+            Inside.set(in.node(0), "next", 1, 4 * base + 1);
+            Inside.set(in.node(0), "match", 1, 0);
+            x.ask(0, 0);
+            int round = x.nodeIs(0, 12);
+            x.ticks(1);
+            Due.due("nothing is taken", x.nodeIs(1, 4), 4);
+            Due.law(x, "e40(f=f);d9(k=2)");
+            x.ticks(1);
+            Due.due("BASE, 1 at least", x.about(0, 1, 0), base > 0 ? 4 : 1);
+            Due.due("ROUND", x.about(0, 1, 2), round);
+            Due.due("MATCH", x.about(0, 1, 1), 0);
+        }
     }
 
     private static void readBelow() {
@@ -127,6 +169,9 @@ public final class BrokenTest {
         Due.due("all are", x.broken(1), 0);
         new Inside(x).layAt(2, 4, 1, 0, 0, 99);
         Due.due("unlike at the INDEX itself: 0, 1 with 2", x.broken(1), 2);
+        x = fourHeld();
+        new Inside(x).layAt(2, 1, 1, 2, 0, 1);
+        Due.due("unlike at the first", x.broken(1), 2);
         x = fourHeld();
         new Inside(x).layAt(2, 2, 1, 0, 7, 11);
         Due.due("another KEY below it", x.broken(1), 2);
@@ -181,15 +226,17 @@ public final class BrokenTest {
     private static void keptAndTried() {
         Due.says(23, "What 0 promises BROKEN, 1 twos of NODES that are not MATCHED (DOWN ones, too), 2 that"
                 + " are not ALIKE (UP ones alone);");
-        TermLog x = Due.settled(7);
-        Inside.set(new Inside(x).world(), "leaderOf", 2, 1 + 4);
-        Due.makeLead(x, 0);
-        Due.due("BROKEN", x.broken(0), 1);
+        TermLog x = fourHeld();
+        spoil(x, 3, 1);
+        Due.due("BROKEN then", x.tried(9, 3), 1);
+        Due.due("none now", x.broken(0), 0);
+        x.ticks(9);
+        Due.due("one", x.broken(0), 1);
         x.keep();
         x.found(7);
         Due.due("nothing BROKEN since FOUNDED", x.broken(0), 0);
         x.undo();
         Due.due("KEPT", x.broken(0), 1);
-        Due.due("BROKEN then", x.tried(1, 3), 1);
+        Due.due("BROKEN before and then", x.tried(1, 3), 1);
     }
 }

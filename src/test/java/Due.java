@@ -101,7 +101,7 @@ final class Due {
 
     /** TICKS till a NODE has a TERM; by what is tried, so that few calls are needed. */
     static void tickToTerm(TermLog x, int n, int term) {
-        while (x.count(0) < 9700 && x.tried(200, 20 + n) < term) x.ticks(200);
+        for (int i = 0; i < 49 && x.tried(200, 20 + n) < term; i++) x.ticks(200);
         int least = 1;
         int most = 200;
         while (least < most) {
@@ -197,6 +197,8 @@ final class Due {
             for (int key = 0; key < 18; key += 3) b.append(' ').append(x.keyOf(n, key));
             b.append(" log");
             for (int i = 1; i <= 4; i++) b.append(' ').append(x.entryAt(n, i, 0));
+            int last = x.nodeIs(n, 4);
+            for (int i = last; i > last - 4; i--) b.append(' ').append(x.entryAt(n, i, 3));
             b.append(" about");
             for (int what = 0; what < 3; what++) b.append(' ').append(x.about(0, n, what));
         }

@@ -163,7 +163,7 @@ public final class EntriesTest {
         Due.says(0, "Is PREV above BASE, or BASE, and the TERM at PREV another one: answer KIND 3: 0, the"
                 + " first INDEX from which on up to PREV all ENTRIES of the receiver have its own TERM"
                 + " at PREV");
-        TermLog x = apart();
+        TermLog x = apart(4);
         Due.due("NEXT of 0 at first", x.about(2, 0, 0), 8);
         Due.due("TERM of 0 at 1, 2, 6", x.entryAt(0, 1, 0) * 100 + x.entryAt(0, 2, 0) * 10
                 + x.entryAt(0, 6, 0), 122);
@@ -178,13 +178,21 @@ public final class EntriesTest {
         x.ticks(5);
         Due.due("all fit", x.nodeIs(0, 4), 8);
         Due.due("TERM of LAST", x.nodeIs(0, 13), 4);
+        // of two, and of one of its TERM
+        for (int writes = 0; writes < 2; writes++) {
+            x = apart(writes);
+            x.ticks(2);
+            Due.due("PREV is LAST of 0", x.about(2, 0, 0), 3 + writes);
+            x.ticks(2);
+            Due.due("the first of " + (1 + writes), x.about(2, 0, 0), 2);
+        }
     }
 
     /**
-     * By INDEX the TERMS of 0 are 1, 2, 2, 2, 2, 2, and those of 1 and 2 are 1, 3, 3, 3, 3, 3, 3; 2
-     * LEADS TERM 4 since this TICK and lays the eighth.
+     * By INDEX the TERMS of 0 are 1, 2 and 2 once more for each write, and those of 1 and 2 are 1,
+     * 3, 3, 3, 3, 3, 3; 2 LEADS TERM 4 since this TICK and lays the eighth.
      */
-    private static TermLog apart() {
+    private static TermLog apart(int writes) {
         TermLog x = Due.settled(7);
         x.ticks(3);
         Due.quiet(x);
@@ -192,9 +200,9 @@ public final class EntriesTest {
         x.cut(1, 2, true);
         Due.makeLead(x, 0);
         x.cut(0, 1, true);
-        for (int i = 0; i < 4; i++) x.write(0, 0, i);
+        for (int i = 0; i < writes; i++) x.write(0, 0, i);
         x.cut(1, 2, false);
-        Due.due("LAST of 0", x.nodeIs(0, 4) * 10 + x.nodeIs(0, 13), 62);
+        Due.due("LAST of 0", x.nodeIs(0, 4) * 10 + x.nodeIs(0, 13), 22 + 10 * writes);
         Due.makeLead(x, 1);
         Due.law(x, "e40(f=f)");
         for (int i = 0; i < 5; i++) x.write(1, 1, i);
@@ -519,7 +527,7 @@ public final class EntriesTest {
         Due.due("NEXT is MATCH + 1 at least", x.about(0, 1, 0), 4);
         Due.due("it SENDS ON all the same", x.count(2) > 0, true);
         // NEXT is 2 when a hint of 7 comes
-        x = apart();
+        x = apart(4);
         Due.law(x, "e40(f=f);d9(f=0&k=3)");
         x.ticks(1);
         Due.law(x, "e40(f=f)");

@@ -8,6 +8,7 @@ public final class FoundTest {
         draws();
         atFirst();
         tried();
+        triedWhole();
         couldWin();
         grantsByTerm();
         grantsByVote();
@@ -66,6 +67,13 @@ public final class FoundTest {
         Due.due("no MESSAGE", x.message(0, 0), -4);
         Due.due("no READ", x.readIs(0, 0), -1);
         Due.due("no LEADER", x.leaderNow(), -2);
+        // a SNAPSHOT that is joint is none then
+        x = Due.settled(7);
+        x.change(0, 15);
+        Due.tickTill(x, y -> y.nodeIs(1, 5) == 2);
+        Due.due("compact", x.compact(1), true);
+        x.found(7);
+        Due.due("none joint", x.nodeIs(1, 8) * 10 + x.nodeIs(1, 9), 70);
         // a TERM led before is as if it had no LEADER
         x = Due.settled(1);
         Due.law(x, "e4(f=1);e40(f=f)");
@@ -149,6 +157,32 @@ public final class FoundTest {
                 Due.due("TERM", ahead[3 * k + 4], x.nodeIs(k, 1));
                 if (k != 4) Due.due("ROLE", ahead[3 * k + 5], x.nodeIs(k, 3));
             }
+        }
+    }
+
+    /** What is tried of MESSAGES of all KINDS, ENTRIES, SNAPSHOTS, READS comes so. */
+    private static void triedWhole() {
+        Due.says(0, "by the DRAWS that will come (nothing is changed).");
+        for (int run = 0; run < 40; run++) {
+            TermLog x = stirred(run);
+            TermLog y = stirred(run);
+            for (int i = 0; i < 3; i++) {
+                int n = 1 + (run + 7 * i) % 25;
+                x.tried(200, 0);
+                for (int k = 0; k < 5; k++) {
+                    int commit = x.tried(n, 10 + k);
+                    int term = x.tried(n, 20 + k);
+                    int role = x.tried(n, 30 + k);
+                    if (k == 0) y.ticks(n);
+                    Due.due("TERM", term, y.nodeIs(k, 1));
+                    if (y.nodeIs(k, 0) == 1) Due.due("COMMIT", commit, y.nodeIs(k, 5));
+                    if (y.nodeIs(k, 0) == 1) Due.due("ROLE", role, y.nodeIs(k, 3));
+                }
+                Due.due("on their way", x.tried(n, 2), y.count(2));
+                Due.due("LEADER NOW", x.tried(n, 1), y.leaderNow());
+                x.ticks(n);
+            }
+            Due.due("nothing is changed", Due.seen(x), Due.seen(y));
         }
     }
 
@@ -269,6 +303,14 @@ public final class FoundTest {
         Due.due("3 is at TERM 1 yet", x.nodeIs(3, 1), 1);
         Due.due("that TERM, no VOTE: they grant", x.couldWin(3, 1), 11);
         Due.due("three of four", x.couldWin(3, 0), 1);
+        // by one TERM more they are above that one, and have no VOTE either
+        x.cut(2, 3, true);
+        Due.law(x, "e4(f=2);e40(f=f);x(f=2&t=3)");
+        Due.tickTill(x, y -> y.nodeIs(0, 1) == 3);
+        Due.due("TERM 3, no VOTE", x.nodeIs(0, 2) * 10 + x.nodeIs(1, 2), -22);
+        Due.due("3 is at TERM 1 still", x.nodeIs(3, 1), 1);
+        x.cut(2, 3, false);
+        Due.due("above, no VOTE: they do not", x.couldWin(3, 1), 8);
     }
 
     private static void grantsAt999() {
@@ -354,6 +396,120 @@ public final class FoundTest {
             x.ticks(1);
         }
         keptReads();
+        keptWhole();
+        keptFar();
+        keptTerms();
+    }
+
+    /** As much as there is room for: INDEX 999, a LOG of 48 ENTRIES, 160 MESSAGES. */
+    private static void keptFar() {
+        TermLog x = NodesTest.far(999);
+        x.keep();
+        x.found(1);
+        x.undo();
+        for (int index = 997; index <= 999; index++) {
+            Due.due("HELD at " + index, x.heldAt(index, 3), 1);
+        }
+        Due.due("LAST", x.nodeIs(0, 4), 999);
+        x = NodesTest.leaderOfMany(48);
+        x.keep();
+        int value = x.entryAt(0, 48, 0);
+        x.found(1);
+        Due.tickTill(x, y -> y.leaderNow() == 0);
+        Due.plan(x, "9(4w007)3w007");
+        x.undo();
+        Due.due("ENTRY 47", x.entryAt(0, 47, 0), value - 1);
+        Due.due("ENTRY 48", x.entryAt(0, 48, 0), value);
+        x = Due.settled(15);
+        Due.quiet(x);
+        Due.law(x, "e40(f=f);d9(f=f)");
+        Due.plan(x, "9(4w001)2w001");
+        for (int i = 0; i < 16; i++) x.ask(0, i % 8);
+        Due.due("160", x.count(2), 160);
+        x.keep();
+        int due = x.message(159, 4);
+        x.found(3);
+        x.undo();
+        Due.due("160 yet", x.count(2), 160);
+        Due.due("the last one", x.message(159, 0) * 100 + x.message(159, 1), 1);
+        Due.due("the last one is due", x.message(159, 4), due);
+        Due.due("READ 15", x.readIs(15, 3), 7);
+    }
+
+    /** Who led a TERM is KEPT: it may be another one each time. */
+    private static void keptTerms() {
+        TermLog x = Due.settled(7);
+        Due.quiet(x);
+        x.crash(0);
+        x.keep();
+        Due.makeLead(x, 1);
+        Due.due("TERM 2", x.nodeIs(1, 1), 2);
+        x.undo();
+        Due.makeLead(x, 2);
+        Due.due("TERM 2 by another", x.nodeIs(2, 1), 2);
+        Due.due("nothing BROKEN", x.broken(0), 0);
+        x.undo();
+        Due.law(x, "e4(f=1);e40(f=f)");
+        x.crash(1);
+        x.comeUp(1);
+        Due.due("tried by 1", x.tried(30, 1) * 10 + x.tried(30, 3), 10);
+        Due.law(x, "e4(f=2);e40(f=f)");
+        x.crash(1);
+        x.crash(2);
+        x.comeUp(1);
+        x.comeUp(2);
+        Due.due("tried by 2", x.tried(30, 1) * 10 + x.tried(30, 3), 20);
+    }
+
+    /** What is KEPT goes on as what was never KEPT, whatever was done between. */
+    private static void keptWhole() {
+        for (int run = 0; run < 40; run++) {
+            TermLog x = stirred(run);
+            for (int n = 1; n < 20; n += 6) x.ticks(n);
+            String seen = Due.seen(x);
+            x = stirred(run);
+            x.keep();
+            disturb(x);
+            Due.due("undo", x.undo(), true);
+            for (int n = 1; n < 20; n += 6) x.ticks(n);
+            Due.due("KEPT and UNDONE, " + run, Due.seen(x), seen);
+        }
+    }
+
+    /** MESSAGES of all KINDS on their way, ENTRIES, SNAPSHOTS, READS. */
+    static TermLog stirred(int run) {
+        TermLog x = Due.settled(31);
+        Due.law(x, "dw%4(f=f);lw%2(k=3);e6+w(f=f)");
+        x.seed(run * 997);
+        for (int i = 0; i < 6; i++) {
+            int n = x.leaderNow();
+            for (int w = 0; w < 4; w++) x.write(n, (run + w) % 8, 10 * i + w);
+            x.ask(n, run % 8);
+            x.ticks(3 + (run + i) % 5);
+            x.compact(n);
+            x.crash(1 + (run + i) % 4);
+            x.comeUp(1 + (run + i + 2) % 4);
+            if (run % 3 == 1) x.cut(n, (run + i) % 7, i % 2 == 0);
+            if (run % 3 == 2) x.change(n, 31 - (1 << i % 5));
+        }
+        return x;
+    }
+
+    private static void disturb(TermLog x) {
+        x.seed(1);
+        x.found(127);
+        Due.tickTill(x, y -> y.leaderNow() >= 0);
+        int n = x.leaderNow();
+        for (int i = 0; i < 9; i++) x.write(n, i % 8, 99 - i);
+        x.ticks(4);
+        x.ask(n, 7);
+        x.ask(n, 7);
+        x.compact(n);
+        x.crash((n + 1) % 7);
+        x.cut((n + 2) % 7, (n + 3) % 7, true);
+        for (int i = 0; i < 9; i++) x.write(n, i % 8, 89 - i);
+        x.ticks(5);
+        x.change(n, 127 - (1 << n));
     }
 
     private static TermLog keptBusy() {
@@ -370,26 +526,42 @@ public final class FoundTest {
         x.write(0, 5, 50);
         x.write(0, 6, 60);
         x.ticks(3);
+        Due.quiet(x);
         x.ask(0, 5);
         x.ticks(2);
+        x.ask(0, 7);
+        x.ticks(1);
         x.ask(0, 6);
         x.keep();
-        x.found(1);
-        Due.tickTill(x, y -> y.leaderNow() == 0);
-        x.ask(0, 1);
-        x.ask(0, 2);
-        Due.due("another READ", x.readIs(0, 3), 1);
+        x.found(8);
+        Due.tickTill(x, y -> y.leaderNow() == 3);
+        for (int key = 1; key < 4; key++) x.ask(3, key);
+        Due.due("another READ", x.readIs(0, 2) * 10 + x.readIs(0, 3), 31);
         x.undo();
-        int[][] all = {{1, 50, 0, 5}, {0, -2, 0, 6}};
-        for (int i = 0; i < 2; i++) {
+        int[][] all = {{1, 50, 0, 5}, {0, -2, 0, 7}, {0, -2, 0, 6}};
+        for (int i = 0; i < 3; i++) {
             for (int what = 0; what < 4; what++) {
                 Due.due("a KEPT READ", x.readIs(i, what), all[i][what]);
             }
         }
         x.ticks(1);
-        Due.due("open by its ROUND", x.readIs(1, 0), 0);
+        Due.due("answered by its ROUND", x.readIs(1, 0), 1);
+        Due.due("open by its ROUND", x.readIs(2, 0), 0);
         x.ticks(1);
-        Due.due("answered by its KEY", x.readIs(1, 1), 60);
+        Due.due("answered by its KEY", x.readIs(2, 1), 60);
+        // what was HELD when it was asked, too: not what was HELD later
+        x = Due.settled(7);
+        Due.quiet(x);
+        x.ask(0, 1);
+        x.keep();
+        x.found(8);
+        Due.tickTill(x, y -> y.leaderNow() == 3);
+        for (int i = 0; i < 5; i++) x.write(3, 0, i);
+        x.ask(3, 0);
+        x.undo();
+        x.ticks(2);
+        Due.due("answered", x.readIs(0, 0), 1);
+        Due.due("nothing BROKEN", x.broken(0), 0);
     }
 
     private static void check(TermLog x, int n, int want, int... keys) {

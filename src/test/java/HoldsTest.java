@@ -62,6 +62,23 @@ public final class HoldsTest {
         Due.due("one of two", x.nodeIs(0, 5), 1);
         x.ticks(2);
         Due.due("two of two", x.nodeIs(0, 5), 2);
+        // each NODE counts: n LEADS, another one alone answers
+        for (int n = 0; n < 7; n++) {
+            int other = (n + 1) % 7;
+            x = new TermLog();
+            Due.law(x, "e4(f=" + n + ");e40(f=f)");
+            x.found(1 << n | 1 << other);
+            Due.tickTill(x, y -> y.leaderNow() >= 0);
+            x.ticks(1);
+            Due.due(n + " with " + other + ", not yet", x.nodeIs(n, 5), 0);
+            x.ticks(1);
+            Due.due(n + " with " + other, x.nodeIs(n, 5), 1);
+            Due.due("a READ of " + n, x.ask(n, 0), 0);
+            x.ticks(1);
+            Due.due("open", x.readIs(0, 0), 0);
+            x.ticks(1);
+            Due.due("answered", x.readIs(0, 0), 1);
+        }
     }
 
     private static void ownTerm() {
@@ -203,6 +220,28 @@ public final class HoldsTest {
         x.compact(0);
         x.ticks(6);
         Due.due("joint by the SNAPSHOT", x.nodeIs(0, 9), 3);
+        // nothing is sent as there is no room
+        x = NodesTest.far(997);
+        x.compact(0);
+        Due.law(x, "e40(f=f)");
+        x.change(0, 2 + 1);
+        x.ticks(12);
+        x.compact(0);
+        Due.due("LAST 999, 0 and 1", x.nodeIs(0, 4) * 10 + x.nodeIs(0, 8), 9993);
+        x = NodesTest.far(995);
+        x.compact(0);
+        Due.law(x, "e40(f=f)");
+        x.change(0, 3);
+        x.ticks(12);
+        x.write(0, 0, 1);
+        x.ticks(6);
+        Due.quiet(x);
+        Due.due("a change at 998", x.change(0, 1), 999);
+        x.ask(0, 0);
+        x.ticks(2);
+        Due.due("HELD", x.nodeIs(0, 5), 999);
+        Due.due("joint", x.nodeIs(0, 9), 1);
+        Due.due("nothing is sent", Due.way(x), "");
         // LAST 997: there is room for both
         x = NodesTest.far(997);
         x.compact(0);
@@ -219,9 +258,11 @@ public final class HoldsTest {
         // 0 alone is the new one: as the joint one is HELD, the last one is, too
         TermLog x = Due.settled(7);
         Due.quiet(x);
+        x.crash(2);
         x.change(0, 1);
         x.ticks(1);
         Due.law(x, "e40(f=f);x(k=2)");
+        Due.due("one answers", Due.find(x, 1, 0, 3) >= 0 && Due.find(x, 2, 0, 3) < 0, true);
         Due.due("HELD in the TICK", x.ticks(1), 2);
         Due.due("COMMIT", x.nodeIs(0, 5), 3);
         Due.due("the last one", x.entryAt(0, 3, 2), 1);
@@ -358,8 +399,12 @@ public final class HoldsTest {
         x.crash(0);
         Due.due("none goes by a crash", x.count(7), 16);
         Due.due("answered yet", x.readIs(0, 0), 1);
-        x.found(1);
+        x.found(3);
         Due.due("none asked since", x.count(7), 0);
+        x.ticks(30);
+        int leader = x.leaderNow();
+        Due.due("asked anew", x.ask(leader, 0), 0);
+        Due.due("open, though READ 0 was answered before", x.readIs(0, 0), 0);
     }
 
     private static void whoseEntryAtCommit() {

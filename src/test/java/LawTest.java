@@ -144,6 +144,17 @@ public final class LawTest {
             x.write(0, 0, 0);
             Due.due("lost by l" + l, x.count(8) - before, lost);
         }
+        // on the bound, one below it and one above it, by each DRAW
+        for (int l = 0; l <= 11; l++) {
+            for (int draw = 0; draw < 10; draw++) {
+                TermLog x = Due.settled(3);
+                Due.quiet(x);
+                Due.law(x, "l" + l + "(f=f)");
+                x.seed(Due.seedFor(draw));
+                x.write(0, 0, 0);
+                Due.due("l" + l + " by " + draw, x.count(8), draw < l ? 1 : 0);
+            }
+        }
     }
 
     private static void leastTimer() {
@@ -266,6 +277,10 @@ public final class LawTest {
         worth("40/2/2", 10);
         worth("39%25%8", 6);
         worth("2*3*4/5%3+9", 10);
+        worth("40-9/2", 36);
+        worth("2+39%20", 21);
+        worth("40-7%4", 37);
+        worth("40-2*9/3-1", 33);
     }
 
     private static void factors() {
@@ -338,8 +353,7 @@ public final class LawTest {
         Due.law(x, "e4(f=f);x(f=f)");
         x.found(3);
         x.cut(0, 1, true);
-        for (int i = 0; i < 4; i++) x.ticks(200);
-        while (x.nodeIs(0, 1) < 99) x.ticks(1);
+        Due.tickToTerm(x, 0, 99);
         for (int term = 99; term <= 101; term++) {
             Due.due("TERM", x.nodeIs(0, 1), term);
             Due.law(x, "e30(n=" + term % 100 + ");e20(f=f)");

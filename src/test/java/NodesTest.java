@@ -30,9 +30,12 @@ public final class NodesTest {
         Due.due("UP -1", x.nodeIs(-1, 0), -1);
         Due.due("UP 7", x.nodeIs(7, 0), -1);
         Due.due("all UP", x.count(1), 127);
-        x.crash(6);
-        Due.due("DOWN", x.nodeIs(6, 0), 0);
-        Due.due("six UP", x.count(1), 63);
+        for (int n = 0; n <= 6; n++) {
+            x.crash(n);
+            Due.due("DOWN " + n, x.nodeIs(n, 0), 0);
+            Due.due("six UP", x.count(1), 127 - (1 << n));
+            x.comeUp(n);
+        }
     }
 
     private static void keptOverACrash() {
@@ -294,7 +297,7 @@ public final class NodesTest {
     }
 
     /** Answers to ENTRIES are lost, so nothing is HELD; each election lays one ENTRY more. */
-    private static TermLog leaderOfMany(int entries) {
+    static TermLog leaderOfMany(int entries) {
         TermLog x = new TermLog();
         Due.law(x, "e4(f=0);e40(f=f);x(k=3)");
         x.found(7);
@@ -342,7 +345,7 @@ public final class NodesTest {
     static TermLog far(int last) {
         TermLog x = Due.settled(1);
         for (int i = 0; i < 6; i++) Due.plan(x, "5(9(3w001)c0.)");
-        while (x.nodeIs(0, 4) < last) {
+        for (int i = 0; i < 40 && x.nodeIs(0, 4) < last; i++) {
             x.compact(0);
             int some = Math.min(9, last - x.nodeIs(0, 4));
             Due.plan(x, some == 1 ? "w001" : some + "w001");
@@ -389,6 +392,9 @@ public final class NodesTest {
         Due.due("1 has no room", x.nodeIs(1, 4), 48);
         Due.due("1 knows all it has HELD", x.nodeIs(1, 5), 48);
         Due.due("BASE of 1", x.nodeIs(1, 6), 0);
+        x.ticks(1);
+        Due.due("REACHED is the last it has", x.about(0, 1, 1), 48);
+        Due.due("they are not HELD", x.count(3), 48);
         Due.tickTill(x, y -> y.nodeIs(1, 4) == 50);
         Due.due("1 COMPACTED", x.nodeIs(1, 6), 48);
         Due.due("the ENTRY", x.entryAt(1, 49, 3), 50);
@@ -412,18 +418,18 @@ public final class NodesTest {
         Due.due("ENTRY behind", x.entryAt(0, 3, 3), 44);
         Due.due("KEY", x.keyOf(0, 13), 33);
         Due.due("CONFIG as it was", x.nodeIs(0, 8), 7);
+        // once more, with a BASE
+        x.ticks(2);
+        x.write(0, 3, 55);
+        x.write(0, 3, 66);
+        Due.due("compact again", x.compact(0), true);
+        Due.due("BASE then", x.nodeIs(0, 6), 3);
+        Due.due("LAST then", x.nodeIs(0, 4), 5);
+        Due.due("ENTRY at it", x.entryAt(0, 3, 0), -2);
+        Due.due("the first behind it", x.entryAt(0, 4, 3), 55);
+        Due.due("the last behind it", x.entryAt(0, 5, 3), 66);
+        Due.due("KEY then", x.keyOf(0, 13), 44);
         // the TERM of that ENTRY, not the NODE's own
-        x = Due.settled(7);
-        x.crash(0);
-        Due.standSoon(x, 1);
-        x.crash(2);
-        x.ticks(5);
-        x.comeUp(2);
-        Due.standSoon(x, 2);
-        Due.tickTill(x, y -> y.nodeIs(1, 1) > 1);
-        Due.due("COMMIT of 1", x.nodeIs(1, 5), 0);
-        Due.due("a TERM of its own", x.nodeIs(1, 1) > 1, true);
-        Due.due("TERM of LAST", x.nodeIs(1, 13), 1);
         x = Due.settled(7);
         Due.law(x, "e4(f=2);e40(f=f);x(k=2)");
         x.crash(2);
@@ -433,20 +439,23 @@ public final class NodesTest {
         Due.due("compact 1", x.compact(1), true);
         Due.due("TERM of BASE", x.nodeIs(1, 13), 1);
         // the CONFIG up to COMMIT, not a later one
-        x = Due.settled(7);
-        x.write(0, 0, 1);
-        x.ticks(2);
-        x.cut(0, 1, true);
-        x.cut(0, 2, true);
-        x.change(0, 15);
-        Due.due("compact below the CONFIG", x.compact(0), true);
-        Due.due("joint by the LOG", x.nodeIs(0, 9), 15);
-        Due.makeLead(x, 1);
-        x.ticks(3);
-        x.cut(0, 1, false);
-        x.ticks(6);
-        Due.due("the ENTRY goes: old ones", x.nodeIs(0, 8), 7);
-        Due.due("the ENTRY goes: new ones", x.nodeIs(0, 9), 0);
+        for (int bases = 0; bases < 2; bases++) {
+            x = Due.settled(7);
+            if (bases > 0) x.compact(0);
+            x.write(0, 0, 1);
+            x.ticks(2);
+            x.cut(0, 1, true);
+            x.cut(0, 2, true);
+            x.change(0, 15);
+            Due.due("compact below the CONFIG", x.compact(0), true);
+            Due.due("joint by the LOG", x.nodeIs(0, 9), 15);
+            Due.makeLead(x, 1);
+            x.ticks(3);
+            x.cut(0, 1, false);
+            x.ticks(6);
+            Due.due("the ENTRY goes: old ones", x.nodeIs(0, 8), 7);
+            Due.due("the ENTRY goes: new ones", x.nodeIs(0, 9), 0);
+        }
         // the last of two up to COMMIT; a joint one, too
         x = Due.settled(7);
         x.change(0, 15);

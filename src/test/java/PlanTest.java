@@ -161,7 +161,9 @@ public final class PlanTest {
         repeat("8(5(5.))", 200);
         repeat("4(7(7.))3.", 199);
         repeat("4(7(7.))4.", 200);
+        repeat("4(7(7.))3..", 200);
         Due.due("201", Due.plan(new TermLog(), "4(7(7.))5."), -6008);
+        Due.due("201, one by one", Due.plan(new TermLog(), "4(7(7.))3..."), -6011);
         repeat("4(5(9.).)4.", 188);
         repeat("2(9(9.)9.)2(9.)", 198);
         repeat("(9(9...)9(9.)9.)", 189);

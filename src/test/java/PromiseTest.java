@@ -987,6 +987,16 @@ public final class PromiseTest {
         x.crash(1);
         x.crash(2);
         Due.due("of UP ones alone", x.till(1, 2), 0);
+        for (int n = 1; n < 3; n++) x.comeUp(n);
+        x.ticks(9);
+        Due.due("all have it again", x.till(1, 2), 0);
+        for (int n = 0; n < 3; n++) {
+            x.crash(n);
+            x.comeUp(n);
+            Due.due(n + " alone has it not", x.till(1, 2) != 0, true);
+            Due.tickTill(x, y -> y.till(1, 2) == 0);
+        }
+        for (int n = 1; n < 3; n++) x.crash(n);
         x.crash(0);
         Due.due("none is UP", x.till(1, 2), 0);
         Due.due("none HELD yet: all have it", new TermLog().till(1, 2), 0);
@@ -1122,16 +1132,15 @@ public final class PromiseTest {
         Due.law(x, "e4(f=f);x(f=f)");
         Due.due("4 and all, but none hears", x.change(4, 127) > 0, true);
         for (int n = 0; n < 5; n++) Due.due("a LEADER", x.nodeIs(n, 3), 2);
-        while (x.count(8) < 97000 && x.count(0) < 9700) x.ticks(200);
-        while (x.count(8) < 99700 && x.count(0) < 9900) x.ticks(20);
-        while (x.count(8) < 99970 && x.count(0) < 9900) x.ticks(1);
+        for (int i = 0; i < 49 && x.count(8) < 97000; i++) x.ticks(200);
+        for (int i = 0; i < 49 && x.count(8) < 99700; i++) x.ticks(20);
+        for (int i = 0; i < 49 && x.count(8) < 99970; i++) x.ticks(1);
         int lost = x.count(8);
         Due.due("not yet 99999", lost >= 99970 && lost < 99998, true);
         Due.law(x, "e40(f=f);x(t=1)");
-        while (lost < 100003) {
+        for (int i = 1; i <= 35; i++) {
             x.write(0, 0, 0);
-            lost++;
-            Due.due("one more", x.count(8), Math.min(lost, 99999));
+            Due.due("one more", x.count(8), Math.min(lost + i, 99999));
         }
         x.found(1);
         Due.due("none since FOUNDED", x.count(8), 0);

@@ -79,6 +79,24 @@ public final class SnapshotsTest {
         Due.due("NEXT is MATCH + 1", x.about(0, 1, 0), 1);
         Due.due("HEARD: 0", x.about(0, 1, 2), 0);
         Due.due("it SENDS ON the SNAPSHOT", Due.find(x, 0, 1, 4) >= 0, true);
+        // MATCH is LAST by then: nothing is sent on
+        x = unheard(2, 6);
+        x.compact(0);
+        Due.quiet(x);
+        t = x.count(0);
+        Due.law(x, "e4(f=0);e40(f=f);d9(n=1)");
+        x.ask(0, 0);
+        x.crash(0);
+        x.seed(Due.seedFor(0));
+        x.comeUp(0);
+        x.ticks(10);
+        Due.due("it answers", x.message(Due.find(x, 1, 0, 5), 3), 2);
+        Due.due("MATCH is LAST", x.about(0, 1, 1) * 10 + x.nodeIs(0, 4), 44);
+        x.ticks(1);
+        Due.due("NEXT is LAST + 1", x.about(0, 1, 0), 5);
+        int toIt = 0;
+        for (int i = 0; i < x.count(2); i++) toIt += x.message(i, 1) == 1 ? 1 : 0;
+        Due.due("HEART alone sends", toIt, 1);
     }
 
     /** 1 has ENTRIES 2 to 5 and knows that they are HELD; its answers were lost. */
