@@ -278,6 +278,10 @@ public final class HoldsTest {
         x.ticks(2);
         Due.due("the last CONFIG", x.entryAt(0, 3, 2), 11);
         Due.due("to all of it, and on to 1, 2, 3", Due.way(x), "012 032 012 022 032 ");
+        int[] entries = {1, 3, 1, 1, 1};
+        for (int i = 0; i < 5; i++) {
+            Due.due("from NEXT on, that of 1 is MATCH + 1 already", x.message(i, 5), entries[i]);
+        }
         // with 0 going: what follows is asked in that alone, so 0 LEADS till the last one is HELD
         x = Due.settled(7);
         Due.quiet(x);

@@ -236,9 +236,15 @@ public final class RefusalTest {
                 new Call("change: no room, is these", x -> x.change(0, 1), -3)));
         hold(RefusalTest::fullAnew, List.of(
                 new Call("ask: 16 were asked, COMMIT of an older TERM", x -> x.ask(0, 0), -3),
-                new Call("change: no room, joint, not HELD", x -> x.change(0, 3), -3),
-                new Call("write: no LEADER, its LOG has no room", x -> x.write(1, 0, 0), -2),
-                new Call("change: no LEADER, its LOG has no room, joint", x -> x.change(1, 3), -2)));
+                new Call("change: no room, joint, not HELD", x -> x.change(0, 3), -3)));
+        hold(RefusalTest::crowded, List.of(
+                new Call("write: no room", x -> x.write(0, 0, 0), -3),
+                new Call("write: no LEADER, no room", x -> x.write(1, 0, 0), -2),
+                new Call("write: DOWN, no room", x -> x.write(2, 0, 0), -2),
+                new Call("change: no room", x -> x.change(0, 3), -3),
+                new Call("change: no LEADER, no room", x -> x.change(1, 3), -2),
+                new Call("change: no LEADER, no room, is these", x -> x.change(1, 7), -2),
+                new Call("change: DOWN, no room", x -> x.change(2, 3), -2)));
         // a FAULT ahead of what the ACTS would be refused for
         TermLog x = busy();
         x.check(0);
@@ -250,7 +256,21 @@ public final class RefusalTest {
         Due.due("1 ahead of 7", Due.plan(new TermLog(), "ax00"), -1000);
     }
 
-    /** 0 LEADS anew with 40 ENTRIES, joint and not HELD; 16 READS were asked; 1 is as full. */
+    /** 0, that LEADS, 1, and 2, that is DOWN, have 40 ENTRIES each. */
+    private static TermLog crowded() {
+        TermLog x = Due.settled(7);
+        Due.plan(x, "9(4w001)");
+        x.ticks(30);
+        Due.plan(x, "3w001");
+        x.ticks(6);
+        x.crash(2);
+        for (int n = 0; n < 3; n++) {
+            Due.due("ENTRIES of " + n, x.nodeIs(n, 4) - x.nodeIs(n, 6), 40);
+        }
+        return x;
+    }
+
+    /** 0 LEADS anew with 40 ENTRIES, joint and not HELD; 16 READS were asked. */
     private static TermLog fullAnew() {
         TermLog x = Due.settled(7);
         Due.plan(x, "9(4w001)");

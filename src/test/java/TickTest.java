@@ -291,6 +291,41 @@ public final class TickTest {
         Due.due("its own VOTE", x.nodeIs(0, 11), 1);
         Due.due("TERM yet", x.nodeIs(0, 1), 999);
         Due.due("could win at 999", x.couldWin(0, 1), 3);
+        leadsAt999();
+    }
+
+    /** The last TERM is as any to who LEADS it. */
+    private static void leadsAt999() {
+        TermLog x = new TermLog();
+        Due.law(x, "e4(f=0);e40(f=f);x(f=f)");
+        x.found(7);
+        Due.tickToTerm(x, 0, 998);
+        Due.law(x, "e4(f=0);e40(f=f)");
+        Due.tickTill(x, y -> y.leaderNow() == 0);
+        Due.due("TERM", x.nodeIs(0, 1), 999);
+        Due.due("TERM of its ENTRY", x.entryAt(0, 1, 0), 999);
+        Due.due("KIND of its ENTRY", x.entryAt(0, 1, 1), 2);
+        Due.due("TERM of its MESSAGES", x.message(0, 3), 999);
+        Due.due("a write", x.write(0, 7, 99), 2);
+        int[] parts = {999, 0, 7, 99};
+        for (int what = 0; what < 4; what++) {
+            Due.due("ENTRY 2: " + what, x.entryAt(0, 2, what), parts[what]);
+        }
+        x.ticks(6);
+        Due.due("HELD", x.heldAt(2, 0), 999);
+        Due.due("a READ", x.ask(0, 7), 0);
+        Due.due("a change", x.change(0, 127), 3);
+        Due.due("new ones", x.entryAt(0, 3, 3), 127);
+        x.ticks(2);
+        Due.due("answered", x.readIs(0, 1), 99);
+        x.compact(1);
+        Due.due("TERM of 1", x.nodeIs(1, 13), 999);
+        x.crash(0);
+        x.ticks(200);
+        Due.due("none stands", x.leaderNow(), -2);
+        Due.due("TERM of 1 stays", x.nodeIs(1, 1), 999);
+        Due.due("VOTE of 1 stays", x.nodeIs(1, 2), 0);
+        Due.due("FOLLOWER", x.nodeIs(1, 3), 0);
     }
 
     private static void callsForVotes() {
@@ -767,7 +802,7 @@ public final class TickTest {
         x.ticks(5);
         Due.due("granted", Due.way(x), "211 311 ");
         x.ticks(1);
-        Due.due("1 has VOTES", x.nodeIs(1, 11) & 10, 10 & x.nodeIs(1, 11));
+        Due.due("1 has VOTES", x.nodeIs(1, 11), 14);
         Due.due("1 LEADS", x.leaderNow(), 1);
         x = oneBehind();
         Due.standSoon(x, 2);
